@@ -113,7 +113,7 @@ public final class DebtorViews {
     }
 
     public int set(int what, int value) {
-        if (what < 0 || what >= SETTINGS || !isSetting(what, value)) {
+        if (!isSetting(what, value)) {
             return INVALID_ARGUMENT;
         }
         history.record(state);
@@ -495,10 +495,8 @@ public final class DebtorViews {
             keys = newKeys;
         }
 
-        /** Also for a view whose number was defined before and then undone. */
         void begin(int end) {
             exists = true;
-            spent = 0;
             standAnew(end);
         }
 
@@ -510,7 +508,6 @@ public final class DebtorViews {
 
         void fail() {
             bankrupt = true;
-            place = 0;
             debt = 0;
         }
 
@@ -907,7 +904,7 @@ public final class DebtorViews {
         }
     }
 
-    /** The answers of all views while the changes are gone through; a part has a smaller number than its view. */
+    /** The answers of all views, by ascending numbers, since a view is made of earlier ones. */
     private static final class Replay {
         private final Tables tables = new Tables();
         private final int[] answers = new int[MOST_VIEWS];
@@ -1180,7 +1177,7 @@ public final class DebtorViews {
             }
         }
 
-        /** At the end of the text the token is empty and starts there, which is where a text that ends too early is faulty. */
+        /** At the end the token is empty and starts there: that is the fault of a text that ends too early. */
         private void advance() {
             start = next;
             while (start < text.length && text.at(start) == ' ') {
