@@ -8,12 +8,11 @@ public final class ForecastTest {
         settledByOrder();
         settledRefuses();
         neededIsEnough();
-        nothingIsChanged();
         Check.end("ForecastTest");
     }
 
     private static void ruinCountsTicks() {
-        DebtorViews x = new DebtorViews();
+        Debtors x = new Debtors();
         Check.define(x, "sum a 0-0");
         Check.due("ruin(0) without arrears", x.ruin(0), Check.NONE);
         x.put(0, 0, 1);
@@ -38,7 +37,7 @@ public final class ForecastTest {
     }
 
     private static void ruinComesTrue() {
-        DebtorViews x = new DebtorViews();
+        Debtors x = new Debtors();
         Check.define(x, "join 0-2");
         x.put(0, 0, 1);
         x.put(1, 2, 1);
@@ -56,7 +55,7 @@ public final class ForecastTest {
     }
 
     private static void ruinRefuses() {
-        DebtorViews x = new DebtorViews();
+        Debtors x = new Debtors();
         Check.due("ruin(0)", x.ruin(0), Check.INVALID);
         Check.define(x, "sum a 0-0");
         Check.due("ruin(-1)", x.ruin(-1), Check.INVALID);
@@ -69,8 +68,8 @@ public final class ForecastTest {
     }
 
     /** Views 0 to 3 need 10 (a debt of 4), 6 (of 2), 7 (of 5; no arrears) and nothing; view 4 is bankrupt. */
-    private static DebtorViews debtors() {
-        DebtorViews x = new DebtorViews();
+    private static Debtors debtors() {
+        Debtors x = new Debtors();
         Check.define(x, "sum a 0-0");
         Check.define(x, "join 1-1");
         Check.define(x, "sum a 2-2");
@@ -94,7 +93,7 @@ public final class ForecastTest {
     }
 
     private static void settledByRules() {
-        DebtorViews x = debtors();
+        Debtors x = debtors();
         Check.due("needs", x.view(0, 8) * 10000 + x.view(1, 8) * 100 + x.view(2, 8), 100607);
         Check.due("debts", x.view(0, 7) * 10000 + x.view(1, 7) * 100 + x.view(2, 7), 40207);
         Check.due("the treasury", x.count(6), 0);
@@ -112,7 +111,7 @@ public final class ForecastTest {
     }
 
     private static void settledByOrder() {
-        DebtorViews x = new DebtorViews();
+        Debtors x = new Debtors();
         Check.define(x, "sum a 0-0");
         Check.define(x, "sum a 1-1");
         x.put(0, 0, 1);
@@ -128,7 +127,7 @@ public final class ForecastTest {
     }
 
     private static void settledRefuses() {
-        DebtorViews x = debtors();
+        Debtors x = debtors();
         int[][] wrong = {{-1, 1}, {3, 1}, {0, 0}, {0, 10000}, {0, -1}, {Integer.MAX_VALUE, 1}, {1, Integer.MIN_VALUE}};
         for (int[] w : wrong) {
             Check.due("settled(" + w[0] + ", " + w[1] + ")", x.settled(w[0], w[1]), Check.INVALID);
@@ -136,7 +135,7 @@ public final class ForecastTest {
     }
 
     private static void neededIsEnough() {
-        DebtorViews x = new DebtorViews();
+        Debtors x = new Debtors();
         Check.due("needed() without views", x.needed(), 0);
         x = debtors();
         Check.due("needed()", x.needed(), 23);
@@ -149,26 +148,12 @@ public final class ForecastTest {
         Check.due("count(12)", x.count(12), 0);
         Check.due("count(5)", x.count(5), 0);
         Check.due("needed() then", x.needed(), 0);
-        x = new DebtorViews();
+        x = new Debtors();
         Check.define(x, "join 0-0");
         Check.define(x, "less 0 1");
         Check.define(x, "join 0-1");
         x.set(Check.PRICE, 20);
         Check.putOften(x, 200, 0, 0);
         Check.due("needed() may be above what a treasury holds", x.needed(), 200 * 40 * x.count(1));
-    }
-
-    private static void nothingIsChanged() {
-        DebtorViews x = debtors();
-        x.grant(9);
-        String before = Check.sight(x);
-        int states = x.count(15);
-        x.ruin(0);
-        x.settled(0, 5);
-        x.settled(2, 9999);
-        x.needed();
-        x.since(0);
-        Check.dueText("the object", Check.sight(x), before);
-        Check.due("the history", x.count(15), states);
     }
 }

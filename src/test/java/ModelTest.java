@@ -1,15 +1,15 @@
-/** Promises 1 to 25 together: long runs of calls, each answer compared with the model's. */
+/** Promises 1 to 25 together: runs of 512 calls, the answer to each one compared with the model's. */
 public final class ModelTest {
-    private static final int RUNS = 400;
-    private static final int CALLS = 512;
+    private static final int RUNS = 2000;
     private static final String[] TEXTS = {
         "sum a 0-5", "sum b3-11", "count a 2-2", " count  b 0 - 11 ", "most a 0-11", "most b 4-6", "join 0-11",
         "join 3-4", "less 0 1", "less 1 0", "less 2 3", "less 4 1", "less 5 6", "sum a 3-12", "less 3 3", "most a 01-2",
         "count", "less 9 0", "join 1-2 x", "sum a 5-3", "sum c 0-1", "most b 100-2", "less 10 2", "join-", "\u00e9"};
 
     private long seed;
-    private DebtorViews x;
+    private Debtors x;
     private Model m;
+    private String name;
 
     /** A fixed row of numbers, so that each run of the test is the same. */
     private int next(int bound) {
@@ -41,132 +41,115 @@ public final class ModelTest {
 
     private void run(int run) {
         seed = run * 7919L;
-        x = new DebtorViews();
+        x = Debtors.unwatched();
         m = new Model();
-        boolean many = run % 4 == 0;
-        for (int call = 0; call < CALLS; call++) {
-            String name = "run " + run + " call " + call;
+        int puts = run % 4 == 0 ? 50 : 12;
+        int views = 4 + run % 5;
+        while (x.left() > 0) {
+            name = "run " + run + ", call " + (Debtors.MOST_CALLS - x.left());
             int kind = next(100);
-            if (many && kind < 60) {
-                put(name);
-            } else if (kind < 45) {
-                act(name, kind);
-            } else if (kind < 53 && m.count(2) < 8 + next(2)) {
-                call += define(name);
+            if (kind < puts) {
+                put();
+            } else if (kind < puts + 26) {
+                act();
+            } else if (kind < puts + 34 && m.count(2) < views) {
+                define();
             } else {
-                look(name, kind % 12);
+                look();
             }
         }
     }
 
-    private void put(String name) {
+    private void due(String method, int answer, int want) {
+        Check.due(name + ": " + method, answer, want);
+    }
+
+    private void put() {
         int table = near(0, 1);
         int key = near(0, 11);
         int value = next(4) == 0 ? -1 : near(-1, 99);
-        Check.due(name + " put", x.put(table, key, value), m.put(table, key, value));
+        due("put", x.put(table, key, value), m.put(table, key, value));
     }
 
-    private void act(String name, int kind) {
+    private void act() {
         int view = view();
         int slot = near(0, 1);
         int coins = next(3) == 0 ? near(1, 999) : near(1, 30);
-        if (kind < 18) {
-            put(name);
-        } else if (kind < 24) {
-            Check.due(name + " tick", x.tick(), m.tick());
-        } else if (kind < 28) {
-            Check.due(name + " pay", x.pay(view, coins), m.pay(view, coins));
-        } else if (kind < 31) {
-            Check.due(name + " payAll", x.payAll(), m.payAll());
-        } else if (kind < 34) {
-            Check.due(name + " grant", x.grant(coins), m.grant(coins));
-        } else if (kind < 37) {
-            set(name);
-        } else if (kind == 37 || kind == 38) {
-            Check.due(name + " found", x.found(view), m.found(view));
-        } else if (kind == 39) {
-            Check.due(name + " drop", x.drop(view), m.drop(view));
-        } else if (kind == 40) {
-            Check.due(name + " take", x.take(slot), m.take(slot));
-        } else if (kind == 41) {
-            Check.due(name + " restore", x.restore(slot), m.restore(slot));
-        } else {
-            Check.due(name + " undo", x.undo(), m.undo());
+        switch (next(26)) {
+            case 0, 1, 2, 3, 4, 5: due("tick", x.tick(), m.tick()); break;
+            case 6, 7, 8, 9: due("pay", x.pay(view, coins), m.pay(view, coins)); break;
+            case 10, 11, 12: due("payAll", x.payAll(), m.payAll()); break;
+            case 13, 14, 15: due("grant", x.grant(coins), m.grant(coins)); break;
+            case 16, 17: set(); break;
+            case 18, 19: due("found", x.found(view), m.found(view)); break;
+            case 20: due("drop", x.drop(view), m.drop(view)); break;
+            case 21: due("take", x.take(slot), m.take(slot)); break;
+            case 22: due("restore", x.restore(slot), m.restore(slot)); break;
+            default: due("undo", x.undo(), m.undo()); break;
         }
     }
 
-    private void set(String name) {
+    private void set() {
         int[] most = {20, 20, 500, 100, 1, 2};
         int what = near(0, 5);
         int value = what < 0 || what > 5 ? 0 : near(what == 1 ? 1 : 0, what == 2 && next(2) == 0 ? 60 : most[what]);
-        Check.due(name + " set", x.set(what, value), m.set(what, value));
+        due("set", x.set(what, value), m.set(what, value));
     }
 
-    private int define(String name) {
+    private void define() {
         String text = TEXTS[next(TEXTS.length)];
+        if (text.length() + 2 > x.left()) {
+            look();
+            return;
+        }
         if (next(4) > 0) {
-            Check.due(name + " clearText", x.clearText(), m.clearText());
+            due("clearText", x.clearText(), m.clearText());
         }
         for (int i = 0; i < text.length(); i++) {
-            Check.due(name + " append", x.append(text.charAt(i)), m.append(text.charAt(i)));
+            due("append", x.append(text.charAt(i)), m.append(text.charAt(i)));
         }
-        Check.due(name + " define", x.define(), m.define());
-        return text.length() + 1;
+        due("define", x.define(), m.define());
     }
 
-    private void look(String name, int kind) {
+    private void look() {
         int end = m.count(0);
         int view = view();
         int at = near(0, end);
-        switch (kind) {
-            case 0: lookAtAccounts(name); break;
-            case 1: lookAtViews(name); break;
-            case 2: Check.due(name + " kept", x.kept(view), m.kept(view)); break;
-            case 3: lookAtAnswer(name, view, at, 0); break;
-            case 4: lookAtAnswer(name, view, at, 1); break;
-            case 5: Check.due(name + " ruin", x.ruin(view), m.ruin(view)); break;
-            case 6: lookAtSettled(name); break;
-            case 7: Check.due(name + " needed", x.needed(), m.needed()); break;
-            case 8: Check.due(name + " since", x.since(view), m.since(view)); break;
-            case 9: lookAtValue(name, at); break;
-            case 10: lookAtChange(name, end); break;
-            default: lookAtAnswer(name, view, at, near(0, 1)); break;
+        int what = near(0, 22);
+        int way = near(0, 1);
+        switch (next(24)) {
+            case 0, 1, 2, 3, 4: due("count(" + what + ")", x.count(what), m.count(what)); break;
+            case 5, 6, 7, 8, 9, 10: lookAtView(view, near(0, 9)); break;
+            case 11, 12: due("kept", x.kept(view), m.kept(view)); break;
+            case 13, 14, 15: due("ask", x.ask(view, at, way), m.ask(view, at, way)); break;
+            case 16, 17: due("ruin", x.ruin(view), m.ruin(view)); break;
+            case 18, 19: lookAtSettled(); break;
+            case 20: due("needed", x.needed(), m.needed()); break;
+            case 21: due("since", x.since(view), m.since(view)); break;
+            case 22: lookAtValue(at); break;
+            default: lookAtChange(end); break;
         }
     }
 
-    private void lookAtAccounts(String name) {
-        for (int what = -1; what <= 23; what++) {
-            Check.due(name + " count(" + what + ")", x.count(what), m.count(what));
-        }
+    private void lookAtView(int view, int what) {
+        due("view(" + view + ", " + what + ")", x.view(view, what), m.view(view, what));
     }
 
-    private void lookAtViews(String name) {
-        for (int view = -1; view <= 8; view++) {
-            for (int what = -1; what <= 10; what++) {
-                Check.due(name + " view(" + view + ", " + what + ")", x.view(view, what), m.view(view, what));
-            }
-        }
-    }
-
-    private void lookAtAnswer(String name, int view, int at, int way) {
-        Check.due(name + " ask", x.ask(view, at, way), m.ask(view, at, way));
-    }
-
-    private void lookAtSettled(String name) {
+    private void lookAtSettled() {
         int rule = near(0, 2);
         int coins = near(1, 1 + Math.min(9998, Math.max(0, m.needed()) + 5));
-        Check.due(name + " settled", x.settled(rule, coins), m.settled(rule, coins));
+        due("settled", x.settled(rule, coins), m.settled(rule, coins));
     }
 
-    private void lookAtValue(String name, int at) {
+    private void lookAtValue(int at) {
         int table = near(0, 1);
         int key = near(0, 11);
-        Check.due(name + " value", x.value(table, key, at), m.value(table, key, at));
+        due("value", x.value(table, key, at), m.value(table, key, at));
     }
 
-    private void lookAtChange(String name, int end) {
+    private void lookAtChange(int end) {
         int change = near(0, Math.max(0, end - 1));
         int what = near(0, 3);
-        Check.due(name + " change", x.change(change, what), m.change(change, what));
+        due("change", x.change(change, what), m.change(change, what));
     }
 }

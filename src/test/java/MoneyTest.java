@@ -20,7 +20,7 @@ public final class MoneyTest {
     }
 
     private static void grantFillsTheTreasury() {
-        DebtorViews x = new DebtorViews();
+        Debtors x = new Debtors();
         int[] wrong = {0, -1, 1000, Integer.MIN_VALUE, Integer.MAX_VALUE};
         for (int coins : wrong) {
             Check.due("grant(" + coins + ")", x.grant(coins), Check.INVALID);
@@ -36,7 +36,7 @@ public final class MoneyTest {
     }
 
     private static void tickLetsDebtsGrow() {
-        DebtorViews x = new DebtorViews();
+        Debtors x = new Debtors();
         Check.define(x, "sum a 0-0");
         Check.define(x, "join 0-1");
         x.set(Check.RATE, 3);
@@ -54,7 +54,7 @@ public final class MoneyTest {
     }
 
     private static void tickBreaksViews() {
-        DebtorViews x = new DebtorViews();
+        Debtors x = new Debtors();
         Check.define(x, "sum a 0-0");
         Check.define(x, "count a 0-1");
         Check.define(x, "sum b 0-0");
@@ -85,7 +85,7 @@ public final class MoneyTest {
     }
 
     private static void tickIsFull() {
-        DebtorViews x = new DebtorViews();
+        Debtors x = new Debtors();
         Check.define(x, "sum a 0-0");
         x.put(0, 0, 1);
         Check.grant(x, 9990);
@@ -102,8 +102,8 @@ public final class MoneyTest {
     }
 
     /** A view of "sum a 0-5" with a debt of 6 and arrears at 1, 3 and 4; the other change is at 0. */
-    private static DebtorViews debtor(int order, int coins) {
-        DebtorViews x = new DebtorViews();
+    private static Debtors debtor(int order, int coins) {
+        Debtors x = new Debtors();
         Check.define(x, "sum a 0-5");
         x.put(1, 0, 9);
         x.put(0, 0, 10);
@@ -119,7 +119,7 @@ public final class MoneyTest {
 
     /** What a payment comes to: coins spent, place, answer, arrears, debt, coins spent on debts and on arrears. */
     private static void payment(int order, int treasury, int coins, int... due) {
-        DebtorViews x = debtor(order, treasury);
+        Debtors x = debtor(order, treasury);
         String call = "order " + order + ", treasury " + treasury + ", pay(0, " + coins + ")";
         Check.due(call, x.pay(0, coins), due[0]);
         Check.due(call + ": place", x.view(0, 5), due[1]);
@@ -157,7 +157,7 @@ public final class MoneyTest {
     }
 
     private static void payTwoPricesForJoinAndLess() {
-        DebtorViews x = new DebtorViews();
+        Debtors x = new Debtors();
         Check.define(x, "join 0-1");
         Check.define(x, "most b 2-2");
         Check.define(x, "less 0 1");
@@ -175,7 +175,7 @@ public final class MoneyTest {
     }
 
     private static void payNothingLetsAViewGoOn() {
-        DebtorViews x = new DebtorViews();
+        Debtors x = new Debtors();
         Check.define(x, "sum a 0-0");
         x.put(1, 0, 1);
         x.grant(1);
@@ -189,7 +189,7 @@ public final class MoneyTest {
     }
 
     private static void payRefuses() {
-        DebtorViews x = new DebtorViews();
+        Debtors x = new Debtors();
         Check.define(x, "sum a 0-0");
         Check.define(x, "sum a 1-1");
         Check.due("pay(0, 1) of an empty treasury", x.pay(0, 1), Check.ILLEGAL);
@@ -207,8 +207,8 @@ public final class MoneyTest {
     }
 
     /** Views 0 to 3: one arrear and a debt of 2; three of them and 6; two of them and 6; one of them and 1. */
-    private static DebtorViews debtors(int rule, int coins) {
-        DebtorViews x = new DebtorViews();
+    private static Debtors debtors(int rule, int coins) {
+        Debtors x = new Debtors();
         Check.define(x, "sum a 0-0");
         Check.define(x, "sum a 1-1");
         Check.define(x, "join 2-3");
@@ -231,7 +231,7 @@ public final class MoneyTest {
 
     /** What paying all comes to: coins spent, then the places of views 0 to 3, then their debts. */
     private static void paymentOfAll(int rule, int coins, int... due) {
-        DebtorViews x = debtors(rule, coins);
+        Debtors x = debtors(rule, coins);
         String call = "rule " + rule + ", treasury " + coins + ", payAll()";
         Check.due(call, x.payAll(), due[0]);
         for (int view = 0; view < 4; view++) {
@@ -266,14 +266,14 @@ public final class MoneyTest {
     }
 
     private static void payAllRefuses() {
-        DebtorViews x = new DebtorViews();
+        Debtors x = new Debtors();
         Check.due("payAll() of an empty treasury", x.payAll(), Check.ILLEGAL);
         x.grant(1);
         Check.due("payAll() without views", x.payAll(), 0);
         Check.due("count(15)", x.count(15), 2);
     }
 
-    private static void broken(DebtorViews x) {
+    private static void broken(Debtors x) {
         x.set(Check.LIMIT, 0);
         x.put(0, 0, 3);
         x.put(1, 0, 3);
@@ -282,7 +282,7 @@ public final class MoneyTest {
     }
 
     private static void foundCosts() {
-        DebtorViews x = new DebtorViews();
+        Debtors x = new Debtors();
         Check.define(x, "sum a 0-0");
         Check.define(x, "most b 0-11");
         Check.define(x, "join 0-4");
@@ -312,7 +312,7 @@ public final class MoneyTest {
     }
 
     private static void foundRefuses() {
-        DebtorViews x = new DebtorViews();
+        Debtors x = new Debtors();
         Check.due("found(0)", x.found(0), Check.INVALID);
         Check.define(x, "sum a 0-0");
         x.grant(500);
@@ -320,7 +320,7 @@ public final class MoneyTest {
         Check.due("found(-1)", x.found(-1), Check.INVALID);
         Check.due("found(1)", x.found(1), Check.INVALID);
         Check.due("found(MAX)", x.found(Integer.MAX_VALUE), Check.INVALID);
-        x = new DebtorViews();
+        x = new Debtors();
         Check.define(x, "sum a 0-0");
         broken(x);
         Check.due("found(0) with 5 of 6 coins", x.found(0), Check.ILLEGAL);

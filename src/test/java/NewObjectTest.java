@@ -1,7 +1,7 @@
 /** Promise 1. */
 public final class NewObjectTest {
     public static void main(String[] args) {
-        DebtorViews x = new DebtorViews();
+        Debtors x = new Debtors();
         for (int what = 0; what <= 16; what++) {
             Check.due("count(" + what + ")", x.count(what), 0);
         }
@@ -19,17 +19,39 @@ public final class NewObjectTest {
         Check.due("define()", x.define(), -1000);
         Check.due("needed()", x.needed(), 0);
         twoObjectsShareNothing();
+        constants();
         Check.end("NewObjectTest");
     }
 
     private static void twoObjectsShareNothing() {
-        DebtorViews x = new DebtorViews();
-        DebtorViews y = new DebtorViews();
-        x.put(0, 0, 1);
+        Debtors x = new Debtors();
+        Debtors y = new Debtors();
+        Check.due("put", x.put(0, 0, 1), 0);
+        Check.due("put into the other one", y.put(0, 0, 9), 0);
+        Check.tell(x, "sum");
+        Check.tell(y, "join 0-1");
+        Check.due("define of the other one", y.define(), 0);
+        Check.tell(x, " a 0-1");
+        Check.due("define", x.define(), 0);
         x.grant(5);
         x.set(Check.RATE, 9);
-        Check.define(x, "sum a 0-1");
-        Check.tell(x, "join");
-        Check.dueText("the other object", Check.sight(y), Check.sight(new DebtorViews()));
+        x.take(1);
+        Check.due("value", x.value(0, 0, 1), 1);
+        Check.due("value in the other one", y.value(0, 0, 1), 9);
+        Check.due("kind", x.view(0, 0), 0);
+        Check.due("kind in the other one", y.view(0, 0), 3);
+        Check.due("treasury of the other one", y.count(6), 0);
+        Check.due("rate of the other one", y.count(17), 1);
+        Check.due("snapshots of the other one", y.count(14), 0);
+        Check.due("history of the other one", y.count(15), 2);
+        Check.due("undo in the other one", y.undo(), 1);
+        Check.due("views", x.count(1), 1);
+    }
+
+    private static void constants() {
+        Check.due("INVALID_ARGUMENT", DebtorViews.INVALID_ARGUMENT, -100000001);
+        Check.due("ILLEGAL_STATE", DebtorViews.ILLEGAL_STATE, -100000002);
+        Check.due("CAPACITY_EXCEEDED", DebtorViews.CAPACITY_EXCEEDED, -100000003);
+        Check.due("NONE", DebtorViews.NONE, -100000009);
     }
 }

@@ -13,7 +13,7 @@ public final class SettingsTest {
         int[] most = {20, 20, 500, 100, 1, 2};
         int[] first = {1, 2, 30, 5, 0, 0};
         for (int what = 0; what < 6; what++) {
-            DebtorViews x = new DebtorViews();
+            Debtors x = new Debtors();
             Check.due("set(" + what + ", least)", x.set(what, least[what]), first[what]);
             Check.due("set(" + what + ", most)", x.set(what, most[what]), least[what]);
             Check.due("set(" + what + ", most) again", x.set(what, most[what]), most[what]);
@@ -28,7 +28,7 @@ public final class SettingsTest {
     }
 
     private static void setRefuses() {
-        DebtorViews x = new DebtorViews();
+        Debtors x = new Debtors();
         Check.due("set(-1, 1)", x.set(-1, 1), Check.INVALID);
         Check.due("set(6, 1)", x.set(6, 1), Check.INVALID);
         Check.due("set(MAX, 1)", x.set(Integer.MAX_VALUE, 1), Check.INVALID);
@@ -37,7 +37,7 @@ public final class SettingsTest {
     }
 
     private static void countOfAll() {
-        DebtorViews x = new DebtorViews();
+        Debtors x = new Debtors();
         Check.define(x, "sum a 0-0");
         Check.define(x, "sum a 1-1");
         Check.define(x, "join 1-2");
@@ -64,7 +64,7 @@ public final class SettingsTest {
     }
 
     private static void countRefuses() {
-        DebtorViews x = new DebtorViews();
+        Debtors x = new Debtors();
         Check.due("count(-1)", x.count(-1), Check.INVALID);
         Check.due("count(23)", x.count(23), Check.INVALID);
         Check.due("count(MIN)", x.count(Integer.MIN_VALUE), Check.INVALID);

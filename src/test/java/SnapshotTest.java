@@ -16,8 +16,8 @@ public final class SnapshotTest {
         Check.end("SnapshotTest");
     }
 
-    private static DebtorViews busy() {
-        DebtorViews x = new DebtorViews();
+    private static Debtors busy() {
+        Debtors x = new Debtors();
         Check.define(x, "sum a 0-5");
         Check.define(x, "join 3-7");
         Check.define(x, "less 0 1");
@@ -33,7 +33,7 @@ public final class SnapshotTest {
         return x;
     }
 
-    private static void disturb(DebtorViews x) {
+    private static void disturb(Debtors x) {
         x.put(1, 9, 9);
         x.put(0, 4, -1);
         Check.define(x, "most b 0-9");
@@ -54,17 +54,17 @@ public final class SnapshotTest {
     }
 
     private static void takeAndRestore() {
-        DebtorViews x = busy();
+        Debtors x = busy();
         Check.due("take(0)", x.take(0), 2);
-        String before = Check.sight(x);
+        Sight before = x.sightOfState();
         disturb(x);
         x.clearText();
         Check.due("restore(0)", x.restore(0), 2);
-        Check.dueText("restored", Check.sight(x), before);
+        Check.same("restored", x.sightOfState(), before);
         disturb(x);
         x.clearText();
         Check.due("restore(0) again", x.restore(0), 2);
-        Check.dueText("restored again", Check.sight(x), before);
+        Check.same("restored again", x.sightOfState(), before);
         x.put(0, 0, 1);
         Check.due("take(0) in place of it", x.take(0), 3);
         x.put(0, 0, 1);
@@ -73,7 +73,7 @@ public final class SnapshotTest {
     }
 
     private static void aSnapshotKeepsTheLog() {
-        DebtorViews x = new DebtorViews();
+        Debtors x = new Debtors();
         Check.define(x, "sum a 0-0");
         x.put(0, 0, 10);
         x.put(0, 0, 20);
@@ -98,7 +98,7 @@ public final class SnapshotTest {
     }
 
     private static void aSnapshotKeepsItsValues() {
-        DebtorViews x = new DebtorViews();
+        Debtors x = new Debtors();
         x.take(0);
         x.put(0, 0, 10);
         x.put(0, 1, 20);
@@ -117,7 +117,7 @@ public final class SnapshotTest {
     }
 
     private static void aSnapshotKeepsAFullLog() {
-        DebtorViews x = new DebtorViews();
+        Debtors x = new Debtors();
         x.take(1);
         Check.putOften(x, 200, 1, 11);
         Check.due("take(0)", x.take(0), 200);
@@ -131,7 +131,7 @@ public final class SnapshotTest {
     }
 
     private static void textSlotsAndHistoryStay() {
-        DebtorViews x = new DebtorViews();
+        Debtors x = new Debtors();
         Check.tell(x, "ab");
         x.take(0);
         x.put(0, 0, 1);
@@ -148,7 +148,7 @@ public final class SnapshotTest {
     }
 
     private static void slotsAreTwo() {
-        DebtorViews x = new DebtorViews();
+        Debtors x = new Debtors();
         Check.due("count(14)", x.count(14), 0);
         x.put(0, 0, 1);
         Check.due("take(1)", x.take(1), 1);
@@ -162,7 +162,7 @@ public final class SnapshotTest {
     }
 
     private static void slotsRefuse() {
-        DebtorViews x = new DebtorViews();
+        Debtors x = new Debtors();
         int[] wrong = {-1, 2, Integer.MIN_VALUE, Integer.MAX_VALUE};
         for (int slot : wrong) {
             Check.due("take(" + slot + ")", x.take(slot), Check.INVALID);
@@ -173,7 +173,7 @@ public final class SnapshotTest {
     }
 
     private static void undoGoesBack() {
-        DebtorViews x = busy();
+        Debtors x = busy();
         Check.due("undo()", x.undo(), 4);
         Check.due("undo()", x.undo(), 3);
         Check.due("the bankrupt ones again", x.count(4), 0b110);
@@ -189,7 +189,7 @@ public final class SnapshotTest {
     }
 
     private static void undoBringsSlotsBack() {
-        DebtorViews x = new DebtorViews();
+        Debtors x = new Debtors();
         x.take(0);
         x.put(0, 0, 1);
         x.take(0);
@@ -205,7 +205,7 @@ public final class SnapshotTest {
     }
 
     private static void historyIsFive() {
-        DebtorViews x = new DebtorViews();
+        Debtors x = new Debtors();
         for (int change = 0; change < 13; change++) {
             x.put(0, 0, change);
             Check.due("count(15)", x.count(15), Math.min(5, change + 1));
@@ -219,8 +219,8 @@ public final class SnapshotTest {
     }
 
     private static void errorsAreNoActions() {
-        DebtorViews x = busy();
-        String before = Check.sight(x);
+        Debtors x = busy();
+        Sight before = x.sight();
         x.put(0, 12, 1);
         x.define();
         x.drop(0);
@@ -230,13 +230,13 @@ public final class SnapshotTest {
         x.found(0);
         x.take(2);
         x.restore(0);
-        Check.dueText("the object", Check.sight(x), before);
+        Check.same("the object", x.sight(), before);
         Check.due("undo() of the last action", x.undo(), 4);
         Check.due("which was a payment", x.view(0, 9), 0);
     }
 
     private static void everyActionIsRecorded() {
-        DebtorViews x = new DebtorViews();
+        Debtors x = new Debtors();
         Check.define(x, "sum a 0-0");
         x.grant(9);
         recorded(x, "put", x.count(15), x.put(0, 0, -1));
@@ -253,14 +253,14 @@ public final class SnapshotTest {
         foundIsRecorded();
     }
 
-    private static void recorded(DebtorViews x, String call, int statesBefore, int answer) {
+    private static void recorded(Debtors x, String call, int statesBefore, int answer) {
         Check.due(call + " succeeds", answer >= 0 ? 1 : 0, 1);
         Check.due("count(15) behind " + call, x.count(15), statesBefore + 1);
         Check.due("undo() of " + call, x.undo(), statesBefore);
     }
 
     private static void foundIsRecorded() {
-        DebtorViews x = new DebtorViews();
+        Debtors x = new Debtors();
         x.grant(9);
         Check.define(x, "sum a 0-0");
         x.put(0, 0, 3);

@@ -13,7 +13,7 @@ public final class TablesTest {
     }
 
     private static void putNumbersTheChanges() {
-        DebtorViews x = new DebtorViews();
+        Debtors x = new Debtors();
         Check.due("put(0, 0, 0)", x.put(0, 0, 0), 0);
         Check.due("put(1, 11, 99)", x.put(1, 11, 99), 1);
         Check.due("put(1, 11, -1)", x.put(1, 11, -1), 2);
@@ -23,7 +23,7 @@ public final class TablesTest {
     }
 
     private static void putRefuses() {
-        DebtorViews x = new DebtorViews();
+        Debtors x = new Debtors();
         int[][] wrong = {{-1, 0, 0}, {2, 0, 0}, {0, -1, 0}, {0, 12, 0}, {0, 0, -2}, {0, 0, 100},
             {Integer.MIN_VALUE, 0, 0}, {0, Integer.MAX_VALUE, 0}, {0, Integer.MIN_VALUE, 0}, {1, 1, Integer.MAX_VALUE}};
         for (int[] w : wrong) {
@@ -34,7 +34,7 @@ public final class TablesTest {
     }
 
     private static void putIsFullAfter200() {
-        DebtorViews x = new DebtorViews();
+        Debtors x = new Debtors();
         for (int change = 0; change < 200; change++) {
             Check.due("put " + change, x.put(change % 2, change % 12, change % 100), change);
         }
@@ -49,7 +49,7 @@ public final class TablesTest {
     }
 
     private static void valueAtPlaces() {
-        DebtorViews x = new DebtorViews();
+        Debtors x = new Debtors();
         x.put(0, 3, 7);
         x.put(1, 3, 8);
         x.put(0, 3, 0);
@@ -65,7 +65,7 @@ public final class TablesTest {
     }
 
     private static void valueRefuses() {
-        DebtorViews x = new DebtorViews();
+        Debtors x = new Debtors();
         x.put(0, 0, 1);
         int[][] wrong = {{-1, 0, 0}, {2, 0, 0}, {0, -1, 0}, {0, 12, 0}, {0, 0, -1}, {0, 0, 2},
             {Integer.MAX_VALUE, 0, 0}, {0, Integer.MIN_VALUE, 0}, {0, 0, Integer.MAX_VALUE}};
@@ -75,7 +75,7 @@ public final class TablesTest {
     }
 
     private static void changeTells() {
-        DebtorViews x = new DebtorViews();
+        Debtors x = new Debtors();
         x.put(1, 11, 99);
         x.put(0, 4, -1);
         int[][] due = {{1, 11, 99, 0}, {0, 4, -1, 0}};
@@ -87,7 +87,7 @@ public final class TablesTest {
     }
 
     private static void changeTellsWhomItConcerns() {
-        DebtorViews x = new DebtorViews();
+        Debtors x = new Debtors();
         x.put(0, 2, 1);
         x.put(1, 2, 1);
         x.put(0, 5, 1);
@@ -110,7 +110,7 @@ public final class TablesTest {
     }
 
     private static void changeRefuses() {
-        DebtorViews x = new DebtorViews();
+        Debtors x = new Debtors();
         Check.due("change(0, 0)", x.change(0, 0), Check.INVALID);
         x.put(0, 0, 1);
         int[][] wrong = {{-1, 0}, {1, 0}, {0, -1}, {0, 4}, {Integer.MAX_VALUE, 0}, {0, Integer.MIN_VALUE}};

@@ -11,7 +11,7 @@ public final class TextTest {
     }
 
     private static void appendAndClear() {
-        DebtorViews x = new DebtorViews();
+        Debtors x = new Debtors();
         int[] wrong = {0, -1, 256, Integer.MIN_VALUE, Integer.MAX_VALUE};
         for (int character : wrong) {
             Check.due("append(" + character + ")", x.append(character), Check.INVALID);
@@ -48,7 +48,7 @@ public final class TextTest {
     }
 
     private static void form(String text, int kind, int table, int first, int last) {
-        DebtorViews x = new DebtorViews();
+        Debtors x = new Debtors();
         Check.define(x, "sum a 0-0");
         Check.define(x, "sum b 0-0");
         Check.due(text, Check.define(x, text), 2);
@@ -80,7 +80,7 @@ public final class TextTest {
             0, 0, 4, 3, 3, 7, 7, 9,
             3, 9};
         for (int i = 0; i < texts.length; i++) {
-            DebtorViews x = new DebtorViews();
+            Debtors x = new Debtors();
             int want = due[i] < 0 ? 0 : -1000 - due[i];
             Check.due("define() of \"" + texts[i] + "\"", Check.define(x, texts[i]), want);
             Check.due("count(2)", x.count(2), want == 0 ? 1 : 0);
@@ -88,7 +88,7 @@ public final class TextTest {
     }
 
     private static void wrongKeysAndViews() {
-        DebtorViews x = new DebtorViews();
+        Debtors x = new Debtors();
         Check.define(x, "sum a 0-0");
         Check.define(x, "sum a 1-1");
         Check.define(x, "sum a 2-2");
@@ -103,7 +103,7 @@ public final class TextTest {
     }
 
     private static void errorsKeepTheText() {
-        DebtorViews x = new DebtorViews();
+        Debtors x = new Debtors();
         Check.tell(x, "join 0-1");
         Check.due("define() is too long", x.append('2'), 9);
         Check.due("define()", x.define(), Check.INVALID);
@@ -116,7 +116,7 @@ public final class TextTest {
     }
 
     private static void eightViews() {
-        DebtorViews x = new DebtorViews();
+        Debtors x = new Debtors();
         for (int view = 0; view < 8; view++) {
             Check.due("define() " + view, Check.define(x, "sum a 0-" + view), view);
         }

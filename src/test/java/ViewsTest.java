@@ -18,7 +18,7 @@ public final class ViewsTest {
     }
 
     private static void dropTakesAViewAway() {
-        DebtorViews x = new DebtorViews();
+        Debtors x = new Debtors();
         Check.define(x, "sum a 0-0");
         Check.define(x, "sum a 1-1");
         Check.define(x, "sum a 2-2");
@@ -39,14 +39,14 @@ public final class ViewsTest {
     }
 
     private static void dropRefuses() {
-        DebtorViews x = new DebtorViews();
+        Debtors x = new Debtors();
         Check.due("drop(0)", x.drop(0), Check.INVALID);
         Check.define(x, "sum a 0-0");
         Check.define(x, "sum a 1-1");
         Check.define(x, "sum a 2-2");
         Check.define(x, "less 2 0");
         Check.define(x, "less 3 1");
-        String before = Check.sight(x);
+        Sight before = x.sight();
         int[] wrong = {-1, 5, 8, Integer.MIN_VALUE, Integer.MAX_VALUE};
         for (int view : wrong) {
             Check.due("drop(" + view + ")", x.drop(view), Check.INVALID);
@@ -54,7 +54,7 @@ public final class ViewsTest {
         for (int view = 0; view < 4; view++) {
             Check.due("drop(" + view + ")", x.drop(view), Check.ILLEGAL);
         }
-        Check.dueText("errors change nothing", Check.sight(x), before);
+        Check.same("errors change nothing", x.sight(), before);
         Check.due("drop(4)", x.drop(4), 4);
         Check.due("drop(4) again", x.drop(4), Check.INVALID);
         Check.due("drop(1)", x.drop(1), 3);
@@ -65,14 +65,14 @@ public final class ViewsTest {
         Check.due("count(3)", x.count(3), 0);
     }
 
-    private static void rowOf(DebtorViews x, int view, int... due) {
+    private static void rowOf(Debtors x, int view, int... due) {
         for (int what = 0; what < due.length; what++) {
             Check.due("view(" + view + ", " + what + ")", x.view(view, what), due[what]);
         }
     }
 
     private static void viewTells() {
-        DebtorViews x = new DebtorViews();
+        Debtors x = new Debtors();
         x.put(0, 0, 1);
         Check.define(x, "sum a 0-5");
         x.put(0, 5, 1);
@@ -92,7 +92,7 @@ public final class ViewsTest {
     }
 
     private static void viewTellsOfBankrupts() {
-        DebtorViews x = new DebtorViews();
+        Debtors x = new Debtors();
         Check.define(x, "count b 2-3");
         x.set(Check.LIMIT, 0);
         x.put(1, 2, 1);
@@ -108,7 +108,7 @@ public final class ViewsTest {
     }
 
     private static void viewRefuses() {
-        DebtorViews x = new DebtorViews();
+        Debtors x = new Debtors();
         Check.due("view(0, 0)", x.view(0, 0), Check.INVALID);
         Check.define(x, "sum a 0-5");
         int[][] wrong = {{-1, 0}, {1, 0}, {0, -1}, {0, 10}, {8, 0}, {Integer.MAX_VALUE, 0}, {0, Integer.MIN_VALUE}};
@@ -118,7 +118,7 @@ public final class ViewsTest {
     }
 
     private static void keptStaysBehind() {
-        DebtorViews x = new DebtorViews();
+        Debtors x = new Debtors();
         x.put(0, 0, 10);
         Check.define(x, "sum a 0-5");
         Check.define(x, "most a 6-7");
@@ -137,7 +137,7 @@ public final class ViewsTest {
     }
 
     private static void keptRefuses() {
-        DebtorViews x = new DebtorViews();
+        Debtors x = new Debtors();
         Check.define(x, "sum a 0-5");
         Check.due("kept(-1)", x.kept(-1), Check.INVALID);
         Check.due("kept(1)", x.kept(1), Check.INVALID);
@@ -150,13 +150,13 @@ public final class ViewsTest {
         Check.due("kept(0) of a dropped one", x.kept(0), Check.INVALID);
     }
 
-    private static void askBoth(DebtorViews x, int view, int at, int due) {
+    private static void askBoth(Debtors x, int view, int at, int due) {
         Check.due("ask(" + view + ", " + at + ", 0)", x.ask(view, at, 0), due);
         Check.due("ask(" + view + ", " + at + ", 1)", x.ask(view, at, 1), due);
     }
 
     private static void askAllKinds() {
-        DebtorViews x = new DebtorViews();
+        Debtors x = new Debtors();
         x.put(0, 2, 9);
         x.put(1, 2, 8);
         x.put(0, 4, 0);
@@ -187,7 +187,7 @@ public final class ViewsTest {
     }
 
     private static void askOfMostWhenTheGreatestGoes() {
-        DebtorViews x = new DebtorViews();
+        Debtors x = new Debtors();
         Check.define(x, "most b 0-11");
         x.put(1, 0, 0);
         x.put(1, 11, 5);
@@ -203,7 +203,7 @@ public final class ViewsTest {
     }
 
     private static void askOfCornersOfTheTables() {
-        DebtorViews x = new DebtorViews();
+        Debtors x = new Debtors();
         Check.define(x, "count a 0-0");
         Check.define(x, "count b 11-11");
         Check.define(x, "most a 0-0");
@@ -220,7 +220,7 @@ public final class ViewsTest {
     }
 
     private static void askRefuses() {
-        DebtorViews x = new DebtorViews();
+        Debtors x = new Debtors();
         Check.define(x, "sum a 0-5");
         x.put(0, 0, 1);
         int[][] wrong = {{-1, 0, 0}, {1, 0, 0}, {0, -1, 0}, {0, 2, 0}, {0, 2, 1}, {0, 0, -1}, {0, 0, 2},
@@ -231,12 +231,12 @@ public final class ViewsTest {
     }
 
     private static void sinceWhen() {
-        DebtorViews x = new DebtorViews();
+        Debtors x = new Debtors();
         Check.define(x, "sum b 3-3");
         x.put(1, 3, 1);
         x.put(1, 4, 1);
         Check.due("since(0) behind the first change", x.since(0), 1);
-        x = new DebtorViews();
+        x = new Debtors();
         Check.due("since(0)", x.since(0), Check.INVALID);
         Check.define(x, "sum a 0-5");
         Check.due("since(0) of an empty log", x.since(0), 0);
@@ -260,7 +260,7 @@ public final class ViewsTest {
     }
 
     private static void sinceOfAnswersThatComeBack() {
-        DebtorViews x = new DebtorViews();
+        Debtors x = new Debtors();
         Check.define(x, "sum a 0-5");
         Check.define(x, "sum a 0-0");
         Check.define(x, "less 0 1");
