@@ -12,8 +12,14 @@ final class Check {
     static final int ORDER = 4;
     static final int RULE = 5;
 
+    private static final int MOST_SECONDS = 300;
+
     private static int wrong = 0;
     private static int calls = 0;
+
+    static {
+        endInTime();
+    }
 
     private Check() {
     }
@@ -44,6 +50,21 @@ final class Check {
         if (!got.equals(want)) {
             fail(call + " answered " + got + ", due is " + want);
         }
+    }
+
+    /** A call that does not end is to make the test fail, and not to hang. */
+    private static void endInTime() {
+        Thread watch = new Thread(() -> {
+            try {
+                Thread.sleep(MOST_SECONDS * 1000L);
+            } catch (InterruptedException e) {
+                Thread.currentThread().interrupt();
+            }
+            System.out.println("a test has not ended in " + MOST_SECONDS + " seconds");
+            Runtime.getRuntime().halt(1);
+        });
+        watch.setDaemon(true);
+        watch.start();
     }
 
     static void tell(Debtors x, String text) {

@@ -134,7 +134,10 @@ public final class PromisesTest {
         Script.sentence("CAPACITY_EXCEEDED if it would be above 9999", """
             10 times grant 999; grant 8 = 9998; grant 2 = FULL; grant 999 = FULL; grant 1 = 9999; grant 1 = FULL; count 6 = 9999
             count 7 = 9999; undo = 4; grant 1 = 9999
-            """, "10 times grant 999; grant 10 = FULL; grant 9 = 9999");
+            """, "10 times grant 999; grant 10 = FULL; grant 9 = 9999", """
+            view "sum a 0-0" = 0; set price 20; 50 times put 0 0 1; 10 times grant 999; grant 9 = 9999; pay 0 999 = 980; grant 1 = 9020
+            grant 980 = FULL; grant 979 = 9999; count 7 = 10979
+            """);
     }
 
     private static void tick() {
@@ -152,6 +155,9 @@ public final class PromisesTest {
             count 11 = 0; count 13 = 0; set income 4; tick = 1; count 6 = 9999
             """, """
             set income 100; 9 times grant 999; grant 908 = 9899; tick = 0; count 6 = 9999; undo = 4; grant 1 = 9900; tick = FULL
+            """, """
+            view "sum a 0-0" = 0; put 0 0 1; set income 2; 10 times grant 999; grant 9 = 9999; tick = FULL; pay 0 9 = 2; tick = 0
+            count 6 = 9999; count 7 = 10001; tick = FULL
             """);
     }
 
@@ -196,7 +202,9 @@ public final class PromisesTest {
         Script.sentence("ILLEGAL_STATE if it is not bankrupt, or the treasury is less than that",
             "view \"sum a 0-0\" = 0; grant 99; found 0 = ILLEGAL; put 0 0 1; found 0 = ILLEGAL",
             BROKE + "found 0 = ILLEGAL; grant 5 = 5; found 0 = ILLEGAL; grant 1 = 6; found 0 = 6; found 0 = ILLEGAL; count 6 = 0",
-            BROKE + "grant 7 = 7; found 0 = 6; count 6 = 1");
+            BROKE + "grant 7 = 7; found 0 = 6; count 6 = 1",
+            BROKE + "grant 8 = 8; found 0 = 6; put 0 0 1; tick = 1; found 0 = ILLEGAL; grant 3 = 5; found 0 = ILLEGAL; grant 1 = 6; "
+                + "found 0 = 6");
     }
 
     private static void takeAndRestore() {
@@ -240,11 +248,16 @@ public final class PromisesTest {
         Script.sentence("1 the number of views, 2 of views that have been defined, 3 the set of views", """
             8 times view "sum a 0-0"; count 1 = 8; count 2 = 8; count 3 = 0b11111111; drop 7; count 1 = 7; count 2 = 8
             count 3 = 0b01111111; drop 0; count 1 = 6; count 3 = 0b01111110
+            """, """
+            view "sum a 0-0" = 0; view "sum a 0-0" = 1; view "sum b 0-0" = 2; put 0 0 1; put 1 0 1; tick; set limit 1; tick = 0b111
+            count 1 = 3; count 2 = 3; count 3 = 0b111; drop 1 = 2; count 1 = 2; count 3 = 0b101
             """);
         Script.sentence("4 the set of bankrupt views, 5 the set of views that have arrears", """
             view "sum a 0-0" = 0; view "sum b 0-0" = 1; view "sum a 1-1" = 2; count 4 = 0; count 5 = 0
             set limit 0; put 0 0 1; put 1 0 1; count 4 = 0; count 5 = 0b011; tick = 0b011; count 4 = 0b011; count 5 = 0
             put 0 1 1; put 0 0 1; count 5 = 0b100; drop 0 = 2; count 4 = 0b010; drop 2 = 1; count 5 = 0
+            """, """
+            view "sum a 0-0" = 0; put 0 0 1; tick = 0; count 5 = 1; set order 1; pay 0 2 = 2; view 0 7 = 1; count 5 = 0; count 12 = 1
             """);
         Script.sentence("13 the number of ticks, 14 of snapshots, 15 of states in the history, 16 the length of the text", """
             count 13 = 0; count 14 = 0; count 15 = 0; count 16 = 0; tick; tick; take 1; append 32; tick
@@ -333,6 +346,9 @@ public final class PromisesTest {
         Script.sentence("way: 0 by the tables at this place, 1 by the changes, one by one", """
             view "sum a 0-0" = 0; ask 0 0 -1 = INVALID; ask 0 0 2 = INVALID; ask 0 0 MIN = INVALID; ask 0 0 MAX = INVALID
             ask 0 0 0 = 0; ask 0 0 1 = 0
+            """, """
+            view "sum a 0-1" = 0; view "most b 0-0" = 1; put 0 0 7 = 0; put 0 1 8 = 1; put 1 0 9 = 2
+            ask 0 3 1 = 15; ask 0 1 1 = 7; ask 0 0 1 = 0; ask 1 3 1 = 9; ask 1 2 1 = -1; ask 1 0 0 = -1; ask 1 3 0 = 9
             """);
     }
 
@@ -368,6 +384,7 @@ public final class PromisesTest {
             settled 0 6719 = 0b0011; settled 0 1679 = 0; settled 0 1680 = 0b0001; settled 1 3359 = 0b0001; settled 1 3360 = 0b0011
             """);
         Script.sentence("Returns the set of views that are not bankrupt of which this holds",
+            "view \"sum a 0-0\" = 0; put 0 0 1; tick = 0; settled 0 2 = 0; settled 0 3 = 1; set order 1; settled 0 2 = 0; settled 0 3 = 1",
             BROKE + "settled 0 9999 = 0; view \"sum b 0-0\" = 1; settled 0 1 = 0b10; grant 6; found 0 = 6; settled 0 1 = 0b11");
     }
 

@@ -83,6 +83,7 @@ final class Sight {
             List.of(define),
             List.of(new Call("append", '2'), define),
             List.of(new Call("append", '-'), new Call("append", '9'), define),
+            foundingOfAll(),
             List.of(new Call("restore", 0)),
             List.of(new Call("restore", 1)),
             List.of(undo),
@@ -92,6 +93,16 @@ final class Sight {
             List.of(undo, undo, undo, undo, undo),
             List.of(undo, new Call("restore", 0)),
             List.of(undo, new Call("restore", 1)));
+    }
+
+    /** What founding costs cannot be looked at. */
+    private static List<Call> foundingOfAll() {
+        List<Call> way = new ArrayList<>();
+        way.add(new Call("grant", 999));
+        for (int view = 0; view < 8; view++) {
+            way.add(new Call("found", view));
+        }
+        return way;
     }
 
     private static List<Call> planned(int end) {

@@ -74,12 +74,13 @@ public final class TermsOfUndoTest {
             """);
         String busy = """
             view "sum a 0-0" = 0; view "sum b 0-0" = 1; view "less 0 1" = 2; view "join 1-1" = 3; drop 3 = 3
-            set limit 1 = 30; put 0 0 7 = 0; put 1 0 8 = 1; grant 60 = 60; tick = 0b100; pay 0 1 = 1; pay 1 3 = 3; found 2 = 12
-            put 0 0 5 = 2; set limit 4 = 1; tick = 0; set order 1 = 0; set rule 2 = 0; set price 3 = 2; set rate 4 = 1
-            set income 9 = 5
+            set limit 5 = 30; set rate 3 = 1; put 0 0 7 = 0; put 1 0 8 = 1; grant 60 = 60
+            tick = 0b100; pay 0 2 = 2; pay 1 5 = 5; found 2 = 12; set limit 4 = 5; set rate 1 = 3; put 0 0 5 = 2; tick = 0; tick = 1
+            count 6 = 56; count 7 = 75; count 8 = 5; count 9 = 2; count 10 = 12; count 11 = 11; count 12 = 2; count 13 = 3
+            set order 1 = 0; set rule 2 = 0; set price 3 = 2; set rate 4 = 1; set income 9 = 5
             """;
         String otherwise = """
-            grant 500; put 0 0 9; put 1 1 2; tick; payAll; set limit 0; put 0 0 3; tick; found 0; drop 2; drop 0
+            grant 500; put 0 0 9; put 1 1 2; set limit 500; tick; payAll = 22; count 8 = 15; count 9 = 14; set limit 0; put 0 0 3; tick; found 0; drop 2; drop 0
             set limit 7; set order 0; set rule 1; set price 1; set rate 0; set income 3; view "count b 2-3" = 4
             """;
         for (int slot = 0; slot < 2; slot++) {
@@ -118,6 +119,9 @@ public final class TermsOfUndoTest {
             tell "jo"; grant 1 = 1; tell "in"; undo = 0; count 16 = 4; view " 0-0" = 0
             """, """
             view "join 0-0" = 0; count 16 = 0; undo = 0; count 16 = 0; count 2 = 0; view "join 0-0" = 0
+            """, """
+            view "sum a 0-0" = 0; put 0 0 1; tick = 0; pay 0 9 = 3; count 8 = 1; count 9 = 2; view 0 9 = 3; view 0 5 = 1; undo = 3
+            count 6 = 5; count 8 = 0; count 9 = 0; view 0 9 = 0; view 0 5 = 0; view 0 7 = 1; kept 0 = 0
             """, """
             take 0 = 0; put 0 0 1 = 0; take 1 = 1; undo = 2; count 14 = 1; restore 1 = ILLEGAL; undo = 1; undo = 0; count 14 = 0
             restore 0 = ILLEGAL

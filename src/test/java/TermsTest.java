@@ -164,6 +164,9 @@ public final class TermsTest {
             put 0 5 98; ask 0 6 0 = 98; ask 0 6 1 = 98
             put 0 5 -1; ask 0 7 0 = 0; ask 0 7 1 = 0
             put 0 3 -1; ask 0 8 0 = -1; ask 0 8 1 = -1
+            """, full(1) + """
+            view "most a 0-11" = 0; view "most b 0-11" = 1; kept 0 = -1; kept 1 = 99; put 0 5 7; ask 0 13 0 = 7; ask 0 13 1 = 7
+            put 0 5 8; ask 0 14 0 = 8; ask 0 14 1 = 8; put 1 5 3; ask 0 15 0 = 8; ask 0 15 1 = 8; ask 1 15 1 = 99
             """);
         Script.sentence("3 join the sum, over all keys of the range at which both tables have a value, of the products", """
             view "join 3-5" = 0; kept 0 = 0
@@ -333,7 +336,10 @@ public final class TermsTest {
             10 times tick; grant 5 = 5
             pay 0 4 = 4; count 6 = 1; view 0 7 = 6; pay 0 999 = 1; count 6 = 0; view 0 7 = 5; view 0 9 = 5
             pay 0 1 = ILLEGAL; view 0 7 = 5
-            """);
+            """,
+            debtor + "put 0 0 2; set order 1; grant 3 = 3; pay 0 999 = 2; count 6 = 1; view 0 6 = 1",
+            debtor + "put 0 0 2; tick; set order 1; grant 3 = 3; pay 0 4 = 3; count 6 = 0; view 0 6 = 1; view 0 7 = 1",
+            debtor + "put 0 0 2; tick; set order 1; grant 5 = 5; pay 0 999 = 5; count 6 = 0; view 0 6 = 0; view 0 7 = 1");
         Script.sentence("With the order 0 it settles the debt first, coin by coin, and then arrears",
             debtor + "3 times tick; grant 99; pay 0 1 = 1; view 0 7 = 2; view 0 6 = 1; count 8 = 1; count 9 = 0",
             debtor + "3 times tick; grant 99; pay 0 2 = 2; view 0 7 = 1; view 0 6 = 1; count 8 = 2; count 9 = 0",
@@ -387,7 +393,11 @@ public final class TermsTest {
             payAll = 2; count 6 = 7; count 4 = 1; view 0 9 = 0; view 1 5 = 3
             """, """
             view "sum a 0-0" = 0; put 0 0 1; set limit 0; tick = 1; payAll = 0; count 6 = 5
-            """, "grant 1; payAll = 0; count 6 = 1");
+            """, "grant 1; payAll = 0; count 6 = 1", """
+            8 times view "sum a 0-0"; put 0 0 1; grant 15; payAll = 14; count 5 = 0b10000000; grant 2; payAll = 2; count 5 = 0
+            """, """
+            view "sum a 0-0" = 0; set price 20; 60 times put 0 0 1; 2 times grant 999; payAll = 1200; count 5 = 0; count 6 = 798
+            """);
         Script.sentence("(perhaps none, by which a view goes on all the same)", """
             view "sum a 0-0" = 0; view "sum b 0-0" = 1; put 0 0 1; put 1 0 1; put 1 0 2; grant 2
             payAll = 2; count 6 = 0; view 0 5 = 3; kept 0 = 1; view 1 5 = 1; kept 1 = 0; view 1 6 = 2
@@ -448,6 +458,7 @@ public final class TermsTest {
             "view \"sum a 0-0\" = 0; " + broke + """
             put 0 0 7; put 1 1 1; grant 1; found 0 = 6
             view 0 4 = 0; view 0 5 = 4; view 0 6 = 0; view 0 7 = 0; view 0 8 = 0; kept 0 = 7; count 4 = 0
+            put 0 0 8; view 0 6 = 1; tick = 1; grant 7; found 0 = 6; view 0 5 = 5; kept 0 = 8; count 10 = 12; view 0 9 = 12
             """);
     }
 }
