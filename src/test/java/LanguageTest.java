@@ -15,7 +15,7 @@ public final class LanguageTest {
         "ruin", "settled", "needed", "since");
     private static final Set<String> CONSTANTS = Set.of("INVALID_ARGUMENT", "ILLEGAL_STATE", "CAPACITY_EXCEEDED", "NONE");
     private static final String[] FORBIDDEN = {"\\bthrows?\\b", "\\btry\\b", "\\bcatch\\b", "\\bfinally\\b",
-        "\\bsynchronized\\b", "\\bassert\\b", "\\bpackage\\b", "\\bprotected\\b", "\\bObject\\b", "Exception", "Error\\b",
+        "\\bsynchronized\\b", "\\bassert\\b", "\\bpackage\\b", "\\bprotected\\b", "\\bObject\\b", "\\bnew \\w*(Exception|Error)\\b",
         "->", "::", "Exact\\b", "\\bstatic\\s*\\{", "System\\.(?!arraycopy)", "\\bThread\\b", "Math\\.random"};
     private static final String IMPORTS = "java\\.util\\.(ArrayList|List|Arrays|Iterator)";
     /** The rule says some twelve classes, some twenty fields and some sixty lines: these are a little above. */
@@ -66,7 +66,8 @@ public final class LanguageTest {
             Check.due(c + " is static", Modifier.isStatic(c.getModifiers()) ? 1 : 0, 1);
             fields(c);
             for (Method method : c.getDeclaredMethods()) {
-                Check.due(method + " has a name of its own", METHODS.contains(method.getName()) ? 1 : 0, 0);
+                boolean isNamesake = Modifier.isPrivate(method.getModifiers()) && METHODS.contains(method.getName());
+                Check.due(method + " has a name of its own", isNamesake ? 1 : 0, 0);
                 Check.due(method + " has few parameters", method.getParameterCount() <= MOST_PARAMETERS ? 1 : 0, 1);
             }
         }
@@ -87,8 +88,8 @@ public final class LanguageTest {
     private static void words() throws IOException {
         Path root = Path.of(System.getProperty("debtorViews.root", "."));
         String source = Files.readString(root.resolve("src/main/java/DebtorViews.java"));
-        String code = source.replaceAll("(?s)/\\*.*?\\*/", "").replaceAll("//[^\\n]*", "").replaceAll("\"[^\"\\n]*\"", "\"\"");
-        code = code.replaceAll("(case [^:;]*|default )->", "");
+        String bare = source.replaceAll("(?s)/\\*.*?\\*/", "").replaceAll("//[^\\n]*", "");
+        String code = bare.replaceAll("\"[^\"\\n]*\"", "\"\"").replaceAll("(case [^:;]*|default )->", "");
         for (String word : FORBIDDEN) {
             Check.due("the source has " + word, java.util.regex.Pattern.compile(word).matcher(code).find() ? 1 : 0, 0);
         }
@@ -97,7 +98,7 @@ public final class LanguageTest {
                 Check.due(line, line.matches("import " + IMPORTS + ";.*") ? 1 : 0, 1);
             }
         }
-        Check.due("signs are 1 to 127", (int) source.chars().filter(c -> c > 127).count(), 0);
+        Check.due("signs are 1 to 127", (int) bare.chars().filter(c -> c > 127).count(), 0);
         Check.due("the longest method is short", longestMethod(source.split("\n")) <= MOST_METHOD_LINES ? 1 : 0, 1);
     }
 

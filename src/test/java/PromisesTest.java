@@ -176,8 +176,8 @@ public final class PromisesTest {
             pay MIN 1 = INVALID; pay MAX 1 = INVALID; pay 0 1 = 0; drop 0 = 0; pay 0 1 = INVALID
             """);
         Script.sentence("ILLEGAL_STATE if it is bankrupt, or the treasury is empty", """
-            view "sum a 0-0" = 0; put 0 0 1; pay 0 1 = ILLEGAL; view 0 5 = 0; grant 2; pay 0 2 = 2; pay 0 1 = ILLEGAL; grant 1
-            pay 0 1 = 0
+            view "sum a 0-0" = 0; put 1 0 1; pay 0 1 = ILLEGAL; view 0 5 = 0; put 0 0 1; pay 0 1 = ILLEGAL; view 0 5 = 0
+            grant 2; pay 0 2 = 2; view 0 5 = 2; pay 0 1 = ILLEGAL; grant 1; pay 0 1 = 0
             """, BROKE + "pay 0 1 = ILLEGAL; grant 9; pay 0 1 = ILLEGAL; found 0 = 6; pay 0 1 = 0");
     }
 
@@ -232,6 +232,8 @@ public final class PromisesTest {
             """);
         Script.sentence("CAPACITY_EXCEEDED if the text already has 40 characters", """
             39 times append 255; append 1 = 40; append 1 = FULL; append 97 = FULL; count 16 = 40; clearText = 40; append 1 = 1
+            """, """
+            31 times append 32; tell "sum b 0-1"; append 57 = FULL; append 32 = FULL; append 255 = FULL; define = 0; view 0 3 = 1
             """);
     }
 

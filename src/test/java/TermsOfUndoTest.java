@@ -72,6 +72,11 @@ public final class TermsOfUndoTest {
             take 0 = 0; 8 times view "join 1-1"; take 1 = 0; restore 0 = 0; count 3 = 0; count 2 = 0; view "sum a 0-0" = 0
             restore 1 = 0; count 3 = 0b11111111; view 0 0 = 3; view "sum a 0-0" = FULL
             """);
+        Script.sentence("A snapshot keeps everything: what founding costs, too", """
+            view "sum a 0-4" = 0; view "join 1-2" = 1; view "less 0 1" = 2; set limit 0; put 0 1 1; tick = 0b111; take 0 = 1
+            grant 99; found 2 = 42; drop 2 = 2; restore 0 = 1; count 4 = 0b111; grant 99 = 104
+            found 0 = 30; found 1 = 12; found 2 = 42; undo = 4; undo = 3; found 1 = 12; found 2 = 42; count 6 = 20
+            """);
         String busy = """
             view "sum a 0-0" = 0; view "sum b 0-0" = 1; view "less 0 1" = 2; view "join 1-1" = 3; drop 3 = 3
             set limit 5 = 30; set rate 3 = 1; put 0 0 7 = 0; put 1 0 8 = 1; grant 60 = 60
@@ -148,6 +153,11 @@ public final class TermsOfUndoTest {
             view "sum a 0-0" = 0; put 0 0 1 = 0; append 32 = 1; count 15 = 2; clearText = 1; count 15 = 2
             count 0 = 1; value 0 0 1 = 1; change 0 0 = 0; view 0 0 = 0; kept 0 = 0; ask 0 1 0 = 1; ruin 0 = 31; settled 0 2 = 1
             needed = 2; since 0 = 1; count 15 = 2; undo = 1; count 15 = 1; undo = 0; count 15 = 0
+            """);
+        Script.sentence("what could be, which changes nothing: and nothing is changed by looking", """
+            view "sum a 0-0" = 0; take 1 = 0; put 0 0 1 = 0; put 0 1 2 = 1; tick = 0; grant 1 = 6; tell "join 3-4"
+            count 5 = 1; value 0 0 1 = 1; change 0 3 = 1; view 0 8 = 3; kept 0 = 0; ask 0 1 0 = 1; ask 0 1 1 = 1
+            ruin 0 = 30; settled 0 3 = 1; settled 2 9999 = 1; needed = 3; since 0 = 1
             """);
         Script.sentence("Every successful call: a refused one records nothing", """
             8 times view "sum a 0-0"; set limit 0; 199 times put 0 0 1; tick = 0b11111111; take 0 = 199
