@@ -95,6 +95,11 @@ public final class PromisesTest {
         Script.sentence("a debt that it has is gone, and is not counted as written off", """
             view "sum a 0-0" = 0; view "sum a 1-1" = 1; put 0 0 1; put 0 1 1; tick = 0; count 12 = 2
             drop 0 = 1; count 12 = 1; count 11 = 0; needed = 3; undo = 4; count 12 = 2
+            """, """
+            view "sum a 0-0" = 0; put 0 0 1; put 0 0 2; tick = 0; grant 20; pay 0 5 = 4; set rate 3; tick = 0; view 0 7 = 3; count 6 = 26
+            drop 0 = 0; count 6 = 26; count 7 = 30; count 8 = 2; count 9 = 2; count 10 = 0; count 11 = 0; count 12 = 0
+            """, BROKE + """
+            grant 6; found 0 = 6; put 0 0 1; tick = 1; count 11 = 2; drop 0 = 0; count 6 = 0; count 10 = 6; count 11 = 2
             """);
         Script.sentence("Returns the number of views that are left", """
             8 times view "sum a 0-0"; drop 7 = 7; drop 0 = 6; drop 3 = 5; drop 4 = 4; drop 1 = 3; drop 2 = 2; drop 5 = 1
@@ -278,6 +283,12 @@ public final class PromisesTest {
             count 6 = 22; count 7 = 25; count 8 = 1; count 9 = 2; count 10 = 0; count 11 = 0; count 12 = 1
             set limit 1; tick = 0b10; found 1 = 6; count 6 = 21; count 7 = 30; count 8 = 1; count 9 = 2; count 10 = 6
             count 11 = 2; count 12 = 0; drop 0; drop 1; count 6 = 21; count 7 = 30; count 8 = 1; count 9 = 2; count 10 = 6
+            """, """
+            view "join 0-0" = 0; set price 20; 200 times put 0 0 1; 10 times grant 999; count 7 = 9990; payAll = 8000; count 6 = 1990
+            8 times grant 999; count 6 = 9982; count 7 = 17982; count 9 = 8000; view 0 9 = 8000
+            """, """
+            view "sum a 0-0" = 0; 25 times put 0 0 1; set rate 20; set limit 500; tick = 0; grant 999; pay 0 999 = 550; undo
+            set order 1; pay 0 500 = 500; count 8 = 450; count 9 = 50; view 0 7 = 50; count 6 = 504
             """);
         Script.sentence("11 the debts written off so far, 12 the sum of all debts", """
             view "sum a 0-0" = 0; view "sum a 0-0" = 1; 25 times put 0 0 1; set rate 20; set limit 500; count 12 = 0
@@ -370,6 +381,14 @@ public final class PromisesTest {
             limits + "tick = 0; set rate 0; ruin 0 = NONE; set limit 1; ruin 0 = NONE; set limit 0; ruin 0 = 1; tick = 1");
         Script.sentence("if only ticks passed (however full the treasury)",
             limits + "10 times grant 999; grant 9 = 9999; tick = FULL; ruin 0 = 31; set limit 0; ruin 0 = 1");
+        Script.sentence("in how many ticks: by the same interest for each kind", """
+            view "sum a 0-0" = 0; view "count a 0-0" = 1; view "most a 0-0" = 2; view "join 0-0" = 3; view "less 0 1" = 4
+            put 0 0 1; set rate 10; ruin 0 = 4; ruin 1 = 4; ruin 2 = 4; ruin 3 = 4; ruin 4 = 4; tick = 0; ruin 3 = 3; ruin 4 = 3
+            2 times tick = 0; ruin 4 = 1; tick = 0b11111
+            """, """
+            view "sum a 0-0" = 0; 200 times put 0 0 1; set rate 20; set limit 500; ruin 0 = 1; set rate 2; ruin 0 = 2; tick = 0
+            ruin 0 = 1; tick = 1
+            """);
     }
 
     private static void settled() {
@@ -385,6 +404,11 @@ public final class PromisesTest {
             set price 20; 84 times put 0 0 1; settled 0 9999 = 0b0111; settled 2 9999 = 0b0111; settled 0 6720 = 0b0111
             settled 0 6719 = 0b0011; settled 0 1679 = 0; settled 0 1680 = 0b0001; settled 1 3359 = 0b0001; settled 1 3360 = 0b0011
             """);
+        Script.sentence("if all was paid now by a rule: by the order that is set", """
+            view "sum a 0-0" = 0; view "sum a 1-1" = 1; put 0 1 1; 4 times tick = 0; set order 1; pay 1 2 = 2
+            put 0 0 1; tick = 0; set price 5; view 0 8 = 6; view 1 8 = 4; settled 0 5 = 0; settled 0 9 = 0b01; settled 0 10 = 0b11
+            set order 0; settled 0 3 = 0; settled 0 4 = 0; settled 0 5 = 0b10; settled 0 6 = 0b01; settled 0 10 = 0b11
+            """);
         Script.sentence("Returns the set of views that are not bankrupt of which this holds",
             "view \"sum a 0-0\" = 0; put 0 0 1; tick = 0; settled 0 2 = 0; settled 0 3 = 1; set order 1; settled 0 2 = 0; settled 0 3 = 1",
             BROKE + "settled 0 9999 = 0; view \"sum b 0-0\" = 1; settled 0 1 = 0b10; grant 6; found 0 = 6; settled 0 1 = 0b11");
@@ -394,6 +418,9 @@ public final class PromisesTest {
         Script.sentence("Tells how many coins have to be in the treasury, so that all views have neither a debt nor arrears", """
             needed = 0; view "sum a 0-0" = 0; needed = 0; set price 1; put 0 0 1; needed = 1; grant 1; payAll = 1; count 5 = 0
             needed = 0
+            """, """
+            8 times view "join 0-0"; 25 times put 0 0 1; set rate 20; set limit 500; tick = 0; 175 times put 0 0 1; set price 20
+            needed = 68000; count 12 = 4000; drop 7 = 7; needed = 59500
             """, """
             view "sum a 0-0" = 0; view "join 0-0" = 1; put 0 0 1; tick = 0; needed = 8; grant 2 = 7; settled 0 7 = 0b01
             payAll = 4; count 5 = 0b10; needed = 4; grant 1 = 4; payAll = 4; count 5 = 0; count 12 = 0; needed = 0
@@ -407,6 +434,12 @@ public final class PromisesTest {
             put 0 0 1; since 0 = 2; put 0 0 2; since 0 = 5; put 0 0 1; since 0 = 6; put 0 0 -1; since 0 = 7; put 0 0 0; since 0 = 7
             """, "199 times put 0 0 7; put 0 0 8; view \"most a 0-0\" = 0; since 0 = 200; view \"count a 0-11\" = 1; since 1 = 1",
             "put 0 0 7; view \"sum a 0-0\" = 0; since 0 = 1; put 0 0 -1; since 0 = 2; put 0 0 -1; since 0 = 2");
+        Script.sentence("the answer of a view is always the same: that of a view that is made of others", """
+            view "sum a 0-0" = 0; view "sum a 0-1" = 1; view "less 0 1" = 2; put 0 0 5; since 2 = 0; since 0 = 1; put 0 1 3; since 2 = 2
+            put 0 0 6; since 2 = 2; since 1 = 3; put 0 1 -1; since 2 = 4; put 0 0 -1; since 2 = 4; ask 2 4 0 = 0; ask 2 3 0 = -3
+            """, """
+            view "join 0-1" = 0; put 0 0 5; since 0 = 0; put 1 0 2; since 0 = 2; put 0 1 9; since 0 = 2; put 1 0 -1; since 0 = 4
+            """);
         Script.sentence("view: a view, perhaps a bankrupt one; INVALID_ARGUMENT if there is no such view", """
             since 0 = INVALID; view "sum a 0-0" = 0; since -1 = INVALID; since 1 = INVALID; since 8 = INVALID; since MIN = INVALID
             since MAX = INVALID

@@ -71,7 +71,8 @@ public final class TermsOfTextTest {
         Script.sentence("Tokens are maximal runs of letters a to z",
             "view \"suma 0-1\" = fault 0", "view \"zsum a 0-1\" = fault 0", "view \"sumz a 0-1\" = fault 0",
             "view \"sum az 0-1\" = fault 4", "view \"sum za 0-1\" = fault 4", "view \"Sum a 0-1\" = fault 0",
-            "view \"suM a 0-1\" = fault 0");
+            "view \"suM a 0-1\" = fault 0", "view \"sumA 0-1\" = fault 3", "view \"sum aA 0-1\" = fault 5",
+            "view \"sum a 0A-1\" = fault 7", "view \"sum a 0-1A\" = fault 9", "view \"joinZ0-1\" = fault 4", "view \"less0A\" = fault 5");
         Script.sentence("maximal runs of letters a to z: the signs beside them",
             "tell \"sum\"; append 96; view \"a 0-1\" = fault 3", "tell \"sum\"; append 123; view \"a 0-1\" = fault 3",
             "append 96; view \"sum a 0-1\" = fault 0", "append 123; view \"sum a 0-1\" = fault 0",
@@ -112,6 +113,13 @@ public final class TermsOfTextTest {
             "view \"sum a 0- 1\" = 0", "view \"sum a 0 -1 \" = 0", "view \" join  3 -  4 \" = 0",
             "view \"sum a 0-0\" = 0; view \"sum a 0-0\" = 1; view \"  less  1  0  \" = 2; view 2 2 = 1; view 2 3 = 0",
             "view \"su m a 0-1\" = fault 0", "view \"sum a 1 1-11\" = fault 8", "view \"sum a 0-1 1\" = fault 10");
+        Script.sentence("may stand before, between and after tokens, up to the last character of a full text",
+            "view \"sum a 0-0\" = 0; view \"sum a 0-0\" = 1; view \"less 1" + THIRTY_SPACES + "   0\" = 2; view 2 3 = 0",
+            "view \"join 9-" + THIRTY_SPACES + "  9\" = 0; view 0 2 = 9; view 0 3 = 9",
+            "view \"join" + THIRTY_SPACES + "9-11 \" = 0; view 0 2 = 9; view 0 3 = 11",
+            "tell \"join 9-" + THIRTY_SPACES + "  1\"; count 16 = 40; append 49 = FULL; define = INVALID",
+            "view \"join 0-" + THIRTY_SPACES + "  x\" = fault 39", "view \"join 0" + THIRTY_SPACES + "   -\" = fault 40",
+            "view \"join 0-" + THIRTY_SPACES + " 00\" = fault 38", "view \"join 0-" + THIRTY_SPACES + " 10\" = 0; view 0 3 = 10");
         Script.sentence("they are needed only between two runs of letters and between two runs of digits",
             "view \"sum a0-1\" = 0; view 0 1 = 0", "view \"join0-1\" = 0", "view \"most b10-11\" = 0; view 0 2 = 10",
             "view \"suma0-1\" = fault 0", "view \"suma 0-1\" = fault 0", "view \"less01\" = fault 4",

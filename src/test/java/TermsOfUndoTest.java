@@ -69,6 +69,10 @@ public final class TermsOfUndoTest {
             take 0 = 0; 200 times put 1 11 99; take 1 = 200; restore 0 = 0; put 0 0 5 = 0; restore 1 = 200
             change 0 0 = 1; change 0 2 = 99; change 199 1 = 11; value 1 11 200 = 99; put 0 0 5 = FULL
             """, """
+            view "sum a 0-0" = 0; put 0 0 1 = 0; take 0 = 1; 4 times put 0 0 7; restore 0 = 1; count 0 = 1; view 0 6 = 1; since 0 = 1
+            change 1 0 = INVALID; value 0 0 2 = INVALID; ask 0 2 0 = INVALID; ask 0 2 1 = INVALID; ask 0 1 0 = 1; put 0 0 9 = 1
+            ask 0 2 0 = 9; ask 0 2 1 = 9; ask 0 3 0 = INVALID; view 0 6 = 2
+            """, """
             take 0 = 0; 8 times view "join 1-1"; take 1 = 0; restore 0 = 0; count 3 = 0; count 2 = 0; view "sum a 0-0" = 0
             restore 1 = 0; count 3 = 0b11111111; view 0 0 = 3; view "sum a 0-0" = FULL
             """);
@@ -134,6 +138,11 @@ public final class TermsOfUndoTest {
             take 0 = 0; put 0 0 1 = 0; take 0 = 1; put 0 0 2 = 1; restore 0 = 1; undo = 4; undo = 3; undo = 2; restore 0 = 0
             """, """
             take 1 = 0; 5 times grant 1; undo = 4; undo = 3; undo = 2; undo = 1; undo = 0; count 14 = 1; restore 1 = 0
+            """, """
+            take 0 = 0; put 0 0 1 = 0; take 1 = 1; 3 times grant 1; take 0 = 1; undo = 4; undo = 3; undo = 2; undo = 1
+            count 14 = 2; undo = 0; count 14 = 1; restore 1 = ILLEGAL; restore 0 = 0; restore 0 = 0
+            """, """
+            put 0 0 1 = 0; take 0 = 1; put 0 0 2 = 1; restore 0 = 1; undo = 3; count 0 = 2; value 0 0 2 = 2; restore 0 = 1; count 15 = 4
             """);
     }
 
@@ -150,7 +159,7 @@ public final class TermsOfUndoTest {
             "view \"sum a 0-0\"; set limit 0; put 0 0 1; grant 1 = 1; tick = 1; found 0 = 6; count 15 = 5; undo = 4; count 4 = 1",
             "take 0 = 0; count 15 = 1; take 0 = 0; count 15 = 2; restore 0 = 0; count 15 = 3; restore 0 = 0; count 15 = 4");
         Script.sentence("a method that is called an action: the other ones record nothing", """
-            view "sum a 0-0" = 0; put 0 0 1 = 0; append 32 = 1; count 15 = 2; clearText = 1; count 15 = 2
+            view "sum a 0-0" = 0; put 0 0 1 = 0; append 32 = 1; append 1 = 2; append 255 = 3; count 15 = 2; clearText = 3; count 15 = 2
             count 0 = 1; value 0 0 1 = 1; change 0 0 = 0; view 0 0 = 0; kept 0 = 0; ask 0 1 0 = 1; ruin 0 = 31; settled 0 2 = 1
             needed = 2; since 0 = 1; count 15 = 2; undo = 1; count 15 = 1; undo = 0; count 15 = 0
             """);

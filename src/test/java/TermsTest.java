@@ -80,6 +80,9 @@ public final class TermsTest {
             value 0 2 0 = NONE; value 0 2 1 = 7; value 0 2 2 = 8; value 0 2 3 = 8
             value 1 2 2 = NONE; value 1 2 3 = 9
             value 0 2 -1 = INVALID; value 0 2 4 = INVALID; value 0 2 MIN = INVALID; value 0 2 MAX = INVALID
+            """, """
+            199 times put 0 0 1; put 0 0 9 = 199; value 0 0 199 = 1; value 0 0 200 = 9; view "sum a 0-0" = 0; kept 0 = 9
+            ask 0 199 0 = 1; ask 0 199 1 = 1; ask 0 200 0 = 9; ask 0 200 1 = 9; since 0 = 200
             """);
         Script.sentence("the end of the log is the number of changes", """
             count 0 = 0; value 0 0 0 = NONE; value 0 0 1 = INVALID
@@ -99,6 +102,9 @@ public final class TermsTest {
             count 1 = 8; count 2 = 8; count 3 = 0b11111111
             view "sum a 0-0" = FULL
             count 1 = 8; count 2 = 8; count 3 = 0b11111111; count 16 = 9; view 8 0 = INVALID; view 7 2 = 3
+            """, """
+            8 times view "sum a 0-0"; view "less 6 7" = FULL; clearText = 8; view "less 7 8" = INVALID; clearText = 8
+            drop 7 = 7; view "less 6 7" = INVALID; clearText = 8; view "less 0 6" = FULL
             """);
         Script.sentence("numbered from 0 in the order in which they were defined", """
             count 1 = 0; count 3 = 0; view 0 0 = INVALID
@@ -191,6 +197,11 @@ public final class TermsTest {
             kept 2 = -1189; kept 3 = 1188; kept 4 = 2377; kept 5 = 1189; kept 6 = -1188; kept 7 = -2377
             ask 7 12 1 = -2377; ask 7 0 0 = -1; ask 7 0 1 = -1
             """);
+        Script.sentence("of one earlier view less that of another earlier view (whatever these keep)", """
+            view "sum a 0-0" = 0; view "sum b 0-0" = 1; set limit 0; put 0 0 5; tick = 0b01
+            view "less 0 1" = 2; view "less 1 0" = 3; kept 2 = 5; kept 3 = -5; kept 0 = ILLEGAL; kept 1 = 0
+            put 1 0 7; tick = 0b1110; view "less 0 1" = 4; kept 4 = -2; drop 4 = 4
+            """);
     }
 
     /** Changes of a table by which each key has the greatest value. */
@@ -248,6 +259,9 @@ public final class TermsTest {
             put 0 1 2 = 2; view 0 6 = 1; put 0 0 2 = 3; view 0 6 = 2
             """, """
             view "sum a 0-0" = 0; 199 times put 0 0 1; view 0 6 = 199; put 0 0 -1 = 199; view 0 6 = 200; view 0 8 = 400
+            """, """
+            view "sum a 0-0" = 0; 199 times put 0 0 1; put 0 0 9 = 199; set price 1; grant 201
+            pay 0 199 = 199; view 0 5 = 199; view 0 6 = 1; kept 0 = 1; pay 0 2 = 1; view 0 5 = 200; view 0 6 = 0; kept 0 = 9
             """);
     }
 
@@ -292,6 +306,15 @@ public final class TermsTest {
             view "sum a 0-0" = 0; 200 times put 0 0 1; set rate 20 = 1; set limit 500 = 30
             tick = 1; count 11 = 4000; count 12 = 0; tick = 0; count 11 = 4000
             """, """
+            8 times view "sum a 0-0"; 200 times put 0 0 1; set rate 20 = 1; tick = 0b11111111; count 11 = 32000; count 12 = 0
+            """, """
+            8 times view "sum a 0-0"; 25 times put 0 0 1; set rate 20 = 1; set limit 500 = 30; tick = 0; count 12 = 4000
+            tick = 0b11111111; count 11 = 8000; count 12 = 0
+            """, """
+            view "sum a 0-0" = 0; view "count a 0-0" = 1; view "most a 0-0" = 2; view "join 0-0" = 3; view "less 0 1" = 4
+            set rate 9 = 1; put 0 0 1; tick = 0
+            view 0 7 = 9; view 1 7 = 9; view 2 7 = 9; view 3 7 = 9; view 4 7 = 9; count 12 = 45; put 0 0 1; tick = 0; count 12 = 135
+            """, """
             view "sum a 0-0" = 0; set limit 0 = 30; put 0 0 1; tick = 1; put 0 0 1; tick = 0; view 0 7 = 0; count 11 = 1
             """);
         Script.sentence("A view whose debt is above the limit then (whether it grew or not) becomes bankrupt", """
@@ -314,6 +337,7 @@ public final class TermsTest {
         Script.sentence("Then the treasury becomes greater by the income.", """
             set income 0 = 5; tick = 0; count 6 = 0; count 7 = 0
             set income 100 = 0; tick = 0; count 6 = 100; count 7 = 100; tick = 0; count 6 = 200; count 13 = 3
+            8 times tick = 0; count 6 = 1000; count 7 = 1000
             """, """
             view "sum a 0-0" = 0; put 0 0 1; set limit 0 = 30; tick = 1; count 6 = 5; count 7 = 5
             """);
@@ -382,7 +406,9 @@ public final class TermsTest {
             debtor + "pay 0 2 = 2; view 0 5 = 3; kept 0 = 10; view 0 6 = 1",
             debtor + "pay 0 4 = 4; view 0 5 = 5; kept 0 = 30; view 0 6 = 0",
             debtor + "set price 1; set order 1; pay 0 9 = 2; view 0 5 = 5; kept 0 = 30; view 0 6 = 0",
-            "view \"sum a 0-0\" = 0; put 1 0 1; grant 1; pay 0 1 = 0; view 0 5 = 1; kept 0 = 0; pay 0 1 = 0; view 0 5 = 1");
+            "view \"sum a 0-0\" = 0; put 1 0 1; grant 1; pay 0 1 = 0; view 0 5 = 1; kept 0 = 0; pay 0 1 = 0; view 0 5 = 1",
+            debtor + "3 times tick = 0; pay 0 5 = 5; view 0 7 = 1; view 0 5 = 1; kept 0 = 0; view 0 6 = 2; count 9 = 0",
+            debtor + "3 times tick = 0; set order 1; pay 0 1 = 1; view 0 7 = 5; view 0 5 = 1; kept 0 = 0; count 8 = 1");
     }
 
     private static void paymentsOfAll() {
@@ -397,6 +423,9 @@ public final class TermsTest {
             8 times view "sum a 0-0"; put 0 0 1; grant 15; payAll = 14; count 5 = 0b10000000; grant 2; payAll = 2; count 5 = 0
             """, """
             view "sum a 0-0" = 0; set price 20; 60 times put 0 0 1; 2 times grant 999; payAll = 1200; count 5 = 0; count 6 = 798
+            """, """
+            view "join 0-0" = 0; view "join 0-0" = 1; set price 20; 200 times put 0 0 1; 10 times grant 999; grant 9 = 9999
+            payAll = 9960; count 6 = 39; view 0 6 = 0; view 1 5 = 49; view 1 6 = 151; count 9 = 9960
             """);
         Script.sentence("(perhaps none, by which a view goes on all the same)", """
             view "sum a 0-0" = 0; view "sum b 0-0" = 1; put 0 0 1; put 1 0 1; put 1 0 2; grant 2
@@ -419,7 +448,11 @@ public final class TermsTest {
         Script.sentence("by the rule 1 those with the greatest debt first; of several those with smaller numbers first",
             debts + "set rule 1; grant 3; payAll = 3; view 0 7 = 1; view 1 7 = 0; view 1 6 = 3; view 2 7 = 3",
             debts + "set rule 1; grant 10; payAll = 10; view 0 7 = 1; view 1 7 = 0; view 1 6 = 0; view 2 7 = 2",
-            debts + "settled 1 8 = 0; settled 1 9 = 0b010; settled 1 17 = 0b010; settled 1 18 = 0b110; settled 1 21 = 0b111");
+            debts + "settled 1 8 = 0; settled 1 9 = 0b010; settled 1 17 = 0b010; settled 1 18 = 0b110; settled 1 21 = 0b111", """
+            view "sum a 0-0" = 0; view "sum a 1-1" = 1; view "sum a 2-2" = 2; set rate 20; set limit 500; set rule 1
+            24 times put 0 0 1; 25 times put 0 1 1; put 0 2 1; tick = 0; view 0 7 = 480; view 1 7 = 500; grant 495 = 500
+            payAll = 500; view 0 7 = 480; view 1 7 = 0; view 2 7 = 20
+            """);
         String needs = """
             view "sum a 0-0" = 0; view "sum a 1-1" = 1; view "join 2-2" = 2; view "sum a 3-3" = 3; set rate 0
             put 0 3 1; 3 times put 0 0 1; 2 times put 0 1 1; put 0 2 1
@@ -430,7 +463,42 @@ public final class TermsTest {
             needs + "set rule 2; grant 6; payAll = 6; count 5 = 0b0101",
             needs + "set rule 2; grant 10; payAll = 10; count 5 = 0b0001",
             needs + "settled 2 1 = 0; settled 2 5 = 0b1000; settled 2 6 = 0b1010; settled 2 9 = 0b1010; settled 2 10 = 0b1110; "
-                + "settled 2 15 = 0b1110; settled 2 16 = 0b1111");
+                + "settled 2 15 = 0b1110; settled 2 16 = 0b1111", """
+            view "sum a 0-0" = 0; view "sum a 1-1" = 1; put 0 0 1; 3 times tick = 0; 2 times put 0 1 1; view 0 8 = 5; view 1 8 = 4
+            settled 2 3 = 0; settled 2 4 = 0b10; settled 2 8 = 0b10; settled 2 9 = 0b11
+            """, """
+            view "join 0-0" = 0; view "join 1-1" = 1; set price 20; 100 times put 0 0 1; 99 times put 1 1 1
+            settled 2 3959 = 0; settled 2 3960 = 0b10; settled 2 7959 = 0b10; settled 2 7960 = 0b11; settled 0 4000 = 0b01
+            """);
+        rulesForEight();
+    }
+
+    /** Views 0 to 7, with the greatest debt and the greatest need at the first one, at the last one, or all alike. */
+    private static void rulesForEight() {
+        StringBuilder upwards = new StringBuilder();
+        StringBuilder downwards = new StringBuilder();
+        for (int view = 0; view < 8; view++) {
+            upwards.append("view \"sum a " + view + "-" + view + "\" = " + view + "; " + (view + 1) + " times put 0 " + view + " 1; ");
+            downwards.append("view \"sum a " + view + "-" + view + "\" = " + view + "; " + (8 - view) + " times put 0 " + view + " 1; ");
+        }
+        Script.sentence("by the rule 0 by ascending numbers, 1 the greatest debt first, 2 the least needed first: for eight views",
+            upwards + """
+            tick = 0; needed = 108; view 0 7 = 1; view 7 7 = 8
+            settled 0 2 = 0; settled 0 3 = 0b1; settled 0 83 = 0b00111111; settled 0 84 = 0b01111111; settled 0 108 = 0b11111111
+            settled 1 23 = 0; settled 1 24 = 0b10000000; settled 1 104 = 0b11111100; settled 1 105 = 0b11111110
+            settled 1 107 = 0b11111110; settled 1 108 = 0b11111111
+            settled 2 2 = 0; settled 2 3 = 0b1; settled 2 83 = 0b00111111; settled 2 84 = 0b01111111; settled 2 108 = 0b11111111
+            """, downwards + """
+            tick = 0; needed = 108; view 0 7 = 8; view 7 7 = 1
+            settled 0 23 = 0; settled 0 24 = 0b1; settled 0 104 = 0b00111111; settled 0 105 = 0b01111111; settled 0 108 = 0b11111111
+            settled 1 23 = 0; settled 1 24 = 0b1; settled 1 104 = 0b00111111; settled 1 105 = 0b01111111; settled 1 108 = 0b11111111
+            settled 2 2 = 0; settled 2 3 = 0b10000000; settled 2 9 = 0b11000000; settled 2 84 = 0b11111110; settled 2 108 = 0b11111111
+            """, """
+            8 times view "sum a 0-0"; put 0 0 1; tick = 0
+            settled 0 3 = 0b1; settled 0 20 = 0b00111111; settled 0 21 = 0b01111111; settled 0 24 = 0b11111111
+            settled 1 3 = 0b1; settled 1 20 = 0b00111111; settled 1 21 = 0b01111111; settled 1 24 = 0b11111111
+            settled 2 3 = 0b1; settled 2 20 = 0b00111111; settled 2 21 = 0b01111111; settled 2 24 = 0b11111111
+            """);
     }
 
     private static void founding() {
@@ -453,12 +521,17 @@ public final class TermsTest {
             """;
         Script.sentence("(for a view of the kind 4: as much as for both of these), of the greatest number of keys",
             greatest + "set price 13; grant 9; found 7 = 9828; count 6 = 171; count 10 = 9828",
-            greatest + "set price 14; grant 9; found 7 = ILLEGAL; set price 20; found 7 = ILLEGAL; found 6 = 9360; count 6 = 639");
+            greatest + "set price 14; grant 9; found 7 = ILLEGAL; set price 20; found 7 = ILLEGAL; found 6 = 9360; count 6 = 639",
+            greatest + "set price 13; found 7 = 9828; put 0 0 1; tick = 0b10000000; 9 times grant 999; grant 674; found 7 = ILLEGAL; "
+                + "grant 1 = 9828; found 7 = 9828; count 6 = 0; count 7 = 19656; count 10 = 19656; view 7 9 = 19656; view 7 5 = 2");
         Script.sentence("It stands at the end of the log then, and keeps the answer there, without a debt.",
             "view \"sum a 0-0\" = 0; " + broke + """
             put 0 0 7; put 1 1 1; grant 1; found 0 = 6
             view 0 4 = 0; view 0 5 = 4; view 0 6 = 0; view 0 7 = 0; view 0 8 = 0; kept 0 = 7; count 4 = 0
             put 0 0 8; view 0 6 = 1; tick = 1; grant 7; found 0 = 6; view 0 5 = 5; kept 0 = 8; count 10 = 12; view 0 9 = 12
+            """, """
+            view "sum a 0-0" = 0; set limit 0; 199 times put 0 0 1; tick = 1; put 0 0 9 = 199; grant 1 = 6; found 0 = 6
+            view 0 5 = 200; kept 0 = 9; view 0 6 = 0; tick = 0
             """);
     }
 }
