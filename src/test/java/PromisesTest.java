@@ -203,7 +203,7 @@ public final class PromisesTest {
             "grant 99; found 0 = INVALID; " + BROKE + """
             found -1 = INVALID; found 1 = INVALID; found 8 = INVALID; found MIN = INVALID; found MAX = INVALID; drop 0 = 0
             found 0 = INVALID
-            """);
+            """, BROKE + "count 6 = 0; found 1 = INVALID; found 0 = ILLEGAL; drop 0 = 0; found 0 = INVALID; pay 0 1 = INVALID");
         Script.sentence("ILLEGAL_STATE if it is not bankrupt, or the treasury is less than that",
             "view \"sum a 0-0\" = 0; grant 99; found 0 = ILLEGAL; put 0 0 1; found 0 = ILLEGAL",
             BROKE + "found 0 = ILLEGAL; grant 5 = 5; found 0 = ILLEGAL; grant 1 = 6; found 0 = 6; found 0 = ILLEGAL; count 6 = 0",
@@ -404,6 +404,11 @@ public final class PromisesTest {
             set price 20; 84 times put 0 0 1; settled 0 9999 = 0b0111; settled 2 9999 = 0b0111; settled 0 6720 = 0b0111
             settled 0 6719 = 0b0011; settled 0 1679 = 0; settled 0 1680 = 0b0001; settled 1 3359 = 0b0001; settled 1 3360 = 0b0011
             """);
+        Script.sentence("with so many coins in the treasury, which changes nothing: not the treasury that there is", """
+            view "sum a 0-0" = 0; put 0 0 1; 10 times grant 999; settled 0 1 = 0; settled 0 2 = 1; settled 2 9999 = 1; count 6 = 9990
+            grant 9 = 9999; settled 0 1 = 0; settled 1 2 = 1; settled 2 9999 = 1; count 6 = 9999; count 9 = 0; view 0 6 = 1
+            set income 0; tick = 0; put 0 0 1; settled 0 2 = 0; settled 0 5 = 1; settled 0 4 = 0
+            """);
         Script.sentence("if all was paid now by a rule: by the order that is set", """
             view "sum a 0-0" = 0; view "sum a 1-1" = 1; put 0 1 1; 4 times tick = 0; set order 1; pay 1 2 = 2
             put 0 0 1; tick = 0; set price 5; view 0 8 = 6; view 1 8 = 4; settled 0 5 = 0; settled 0 9 = 0b01; settled 0 10 = 0b11
@@ -432,6 +437,9 @@ public final class PromisesTest {
         Script.sentence("the earliest place of the log, from which on to its end the answer of a view is always the same", """
             view "sum a 0-0" = 0; since 0 = 0; put 0 0 0; since 0 = 0; put 0 0 1; since 0 = 2; put 0 1 1; since 0 = 2
             put 0 0 1; since 0 = 2; put 0 0 2; since 0 = 5; put 0 0 1; since 0 = 6; put 0 0 -1; since 0 = 7; put 0 0 0; since 0 = 7
+            """, """
+            view "most a 0-1" = 0; put 0 0 9; put 0 1 5; since 0 = 1; put 0 0 -1; since 0 = 3; put 0 0 2; since 0 = 3; put 0 1 -1
+            since 0 = 5; put 0 0 -1; since 0 = 6; put 0 0 9; put 0 1 9; put 0 0 0; since 0 = 7
             """, "199 times put 0 0 7; put 0 0 8; view \"most a 0-0\" = 0; since 0 = 200; view \"count a 0-11\" = 1; since 1 = 1",
             "put 0 0 7; view \"sum a 0-0\" = 0; since 0 = 1; put 0 0 -1; since 0 = 2; put 0 0 -1; since 0 = 2");
         Script.sentence("the answer of a view is always the same: that of a view that is made of others", """

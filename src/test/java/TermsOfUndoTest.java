@@ -73,6 +73,13 @@ public final class TermsOfUndoTest {
             change 1 0 = INVALID; value 0 0 2 = INVALID; ask 0 2 0 = INVALID; ask 0 2 1 = INVALID; ask 0 1 0 = 1; put 0 0 9 = 1
             ask 0 2 0 = 9; ask 0 2 1 = 9; ask 0 3 0 = INVALID; view 0 6 = 2
             """, """
+            take 1 = 0; put 0 0 1 = 0; take 0 = 1; restore 1 = 0; put 1 5 9 = 0; restore 0 = 1; value 0 0 1 = 1; value 1 5 1 = NONE
+            change 0 0 = 0; undo = 4; value 0 0 1 = NONE; value 1 5 1 = 9; change 0 0 = 1; restore 0 = 1; change 0 2 = 1
+            """, """
+            view "sum a 0-0" = 0; view "most b 1-1" = 1; view "less 0 1" = 2; take 0 = 0; put 0 0 7; put 1 1 8
+            ask 0 2 1 = 7; ask 1 2 1 = 8; ask 2 2 1 = -1; since 1 = 2; restore 0 = 0; ask 0 0 0 = 0; ask 0 0 1 = 0; ask 1 0 0 = -1
+            ask 1 0 1 = -1; ask 2 0 0 = 1; ask 2 0 1 = 1; since 0 = 0; since 1 = 0; since 2 = 0; kept 1 = -1; kept 2 = 1
+            """, """
             take 0 = 0; 8 times view "join 1-1"; take 1 = 0; restore 0 = 0; count 3 = 0; count 2 = 0; view "sum a 0-0" = 0
             restore 1 = 0; count 3 = 0b11111111; view 0 0 = 3; view "sum a 0-0" = FULL
             """);
@@ -80,6 +87,11 @@ public final class TermsOfUndoTest {
             view "sum a 0-4" = 0; view "join 1-2" = 1; view "less 0 1" = 2; set limit 0; put 0 1 1; tick = 0b111; take 0 = 1
             grant 99; found 2 = 42; drop 2 = 2; restore 0 = 1; count 4 = 0b111; grant 99 = 104
             found 0 = 30; found 1 = 12; found 2 = 42; undo = 4; undo = 3; found 1 = 12; found 2 = 42; count 6 = 20
+            """, """
+            set limit 0; set price 1; take 0 = 0; view "sum a 0-5" = 0; view "join 0-9" = 1; view "less 0 1" = 2; take 1 = 0
+            restore 0 = 0; view "most b 1-1" = 0; view "count a 2-3" = 1; view "less 1 0" = 2; put 0 2 1; put 1 1 1; tick = 0b111
+            grant 99; found 0 = 3; found 1 = 6; found 2 = 9; restore 1 = 0; change 0 0 = INVALID; put 0 2 1; change 0 3 = 0b111
+            tick = 0b111; grant 99; found 0 = 18; found 1 = 30; found 2 = 48; view 0 0 = 0; view 1 0 = 3; view 2 2 = 0
             """);
         String busy = """
             view "sum a 0-0" = 0; view "sum b 0-0" = 1; view "less 0 1" = 2; view "join 1-1" = 3; drop 3 = 3
@@ -141,6 +153,15 @@ public final class TermsOfUndoTest {
             """, """
             take 0 = 0; put 0 0 1 = 0; take 1 = 1; 3 times grant 1; take 0 = 1; undo = 4; undo = 3; undo = 2; undo = 1
             count 14 = 2; undo = 0; count 14 = 1; restore 1 = ILLEGAL; restore 0 = 0; restore 0 = 0
+            """, """
+            take 1 = 0; put 0 0 1 = 0; take 0 = 1; restore 1 = 0; put 1 5 9 = 0; take 0 = 1; undo = 4
+            restore 0 = 1; value 0 0 1 = 1; value 1 5 1 = NONE
+            """, """
+            view "sum a 0-0" = 0; put 0 0 7; tick = 0; view 0 7 = 1; pay 0 5 = 3; view 0 9 = 3; undo = 3; undo = 2; undo = 1; undo = 0
+            view "sum a 0-0" = 0; view 0 5 = 0; view 0 6 = 0; view 0 7 = 0; view 0 9 = 0; kept 0 = 0; count 13 = 0
+            """, """
+            set limit 0; view "sum a 0-3" = 0; put 0 0 7; tick = 1; undo = 3; undo = 2; undo = 1; view "sum b 2-2" = 0; view 0 4 = 0
+            put 1 2 7; tick = 1; grant 1; found 0 = 6; kept 0 = 7
             """, """
             put 0 0 1 = 0; take 0 = 1; put 0 0 2 = 1; restore 0 = 1; undo = 3; count 0 = 2; value 0 0 2 = 2; restore 0 = 1; count 15 = 4
             """);

@@ -170,6 +170,9 @@ public final class TermsTest {
             put 0 5 98; ask 0 6 0 = 98; ask 0 6 1 = 98
             put 0 5 -1; ask 0 7 0 = 0; ask 0 7 1 = 0
             put 0 3 -1; ask 0 8 0 = -1; ask 0 8 1 = -1
+            """, """
+            view "most b 0-3" = 0; put 1 0 0; put 1 3 0; put 1 0 -1; ask 0 3 0 = 0; ask 0 3 1 = 0; put 1 3 -1; ask 0 4 0 = -1; ask 0 4 1 = -1
+            put 1 1 99; put 1 2 99; put 1 3 50; put 1 1 3; ask 0 8 0 = 99; ask 0 8 1 = 99; put 1 2 4; ask 0 9 0 = 50; ask 0 9 1 = 50
             """, full(1) + """
             view "most a 0-11" = 0; view "most b 0-11" = 1; kept 0 = -1; kept 1 = 99; put 0 5 7; ask 0 13 0 = 7; ask 0 13 1 = 7
             put 0 5 8; ask 0 14 0 = 8; ask 0 14 1 = 8; put 1 5 3; ask 0 15 0 = 8; ask 0 15 1 = 8; ask 1 15 1 = 99
