@@ -73,12 +73,18 @@ public final class TermsOfUndoTest {
             change 1 0 = INVALID; value 0 0 2 = INVALID; ask 0 2 0 = INVALID; ask 0 2 1 = INVALID; ask 0 1 0 = 1; put 0 0 9 = 1
             ask 0 2 0 = 9; ask 0 2 1 = 9; ask 0 3 0 = INVALID; view 0 6 = 2
             """, """
+            take 0 = 0; view "sum a 0-0" = 0; put 0 0 7; 2 times tick = 0; pay 0 1 = 1; view 0 7 = 1; view 0 9 = 1; restore 0 = 0
+            put 0 0 7 = 0; view "sum a 0-0" = 0; view 0 7 = 0; view 0 9 = 0; view 0 5 = 1; count 12 = 0; needed = 0; kept 0 = 7
+            """, """
+            set limit 0; take 0 = 0; view "sum a 0-0" = 0; put 0 0 7; tick = 1; restore 0 = 0; view "sum a 0-0" = 0; view 0 4 = 0
+            kept 0 = 0; count 4 = 0; take 1 = 0; put 0 0 7; tick = 1; restore 1 = 0; kept 0 = 0; view 0 5 = 0; count 11 = 0
+            """, """
             take 1 = 0; put 0 0 1 = 0; take 0 = 1; restore 1 = 0; put 1 5 9 = 0; restore 0 = 1; value 0 0 1 = 1; value 1 5 1 = NONE
             change 0 0 = 0; undo = 4; value 0 0 1 = NONE; value 1 5 1 = 9; change 0 0 = 1; restore 0 = 1; change 0 2 = 1
             """, """
             view "sum a 0-0" = 0; view "most b 1-1" = 1; view "less 0 1" = 2; take 0 = 0; put 0 0 7; put 1 1 8
-            ask 0 2 1 = 7; ask 1 2 1 = 8; ask 2 2 1 = -1; since 1 = 2; restore 0 = 0; ask 0 0 0 = 0; ask 0 0 1 = 0; ask 1 0 0 = -1
-            ask 1 0 1 = -1; ask 2 0 0 = 1; ask 2 0 1 = 1; since 0 = 0; since 1 = 0; since 2 = 0; kept 1 = -1; kept 2 = 1
+            ask 0 2 1 = 7; ask 1 2 1 = 8; ask 2 2 1 = -1; since 1 = 2; restore 0 = 0; ask 0 0 1 = 0; ask 1 0 1 = -1
+            ask 2 0 1 = 1; since 0 = 0; since 1 = 0; since 2 = 0; kept 1 = -1; kept 2 = 1; ask 0 0 0 = 0; ask 1 0 0 = -1; ask 2 0 0 = 1
             """, """
             take 0 = 0; 8 times view "join 1-1"; take 1 = 0; restore 0 = 0; count 3 = 0; count 2 = 0; view "sum a 0-0" = 0
             restore 1 = 0; count 3 = 0b11111111; view 0 0 = 3; view "sum a 0-0" = FULL
