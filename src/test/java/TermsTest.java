@@ -185,6 +185,10 @@ public final class TermsTest {
             put 1 5 99; put 0 5 99; ask 0 8 0 = 9807; ask 0 8 1 = 9807
             put 0 3 0; ask 0 9 0 = 9801; ask 0 9 1 = 9801
             put 1 5 -1; ask 0 10 0 = 0; ask 0 10 1 = 0
+            """, """
+            view "join 0-11" = 0; put 1 3 7; ask 0 1 0 = 0; ask 0 1 1 = 0; put 0 11 8; ask 0 2 0 = 0; ask 0 2 1 = 0
+            put 0 3 1; put 1 11 1; ask 0 4 0 = 15; ask 0 4 1 = 15; put 0 3 -1; ask 0 5 0 = 8; ask 0 5 1 = 8; put 1 11 0
+            ask 0 6 0 = 0; ask 0 6 1 = 0; put 0 3 0; ask 0 7 0 = 0; ask 0 7 1 = 0
             """, full(0) + full(1) + """
             view "join 0-11" = 0; kept 0 = 117612; ask 0 24 1 = 117612; ask 0 12 0 = 0; ask 0 12 1 = 0; ask 0 23 1 = 107811
             view "join 11-11" = 1; kept 1 = 9801
@@ -455,6 +459,10 @@ public final class TermsTest {
             view "sum a 0-0" = 0; view "sum a 1-1" = 1; view "sum a 2-2" = 2; set rate 20; set limit 500; set rule 1
             24 times put 0 0 1; 25 times put 0 1 1; put 0 2 1; tick = 0; view 0 7 = 480; view 1 7 = 500; grant 495 = 500
             payAll = 500; view 0 7 = 480; view 1 7 = 0; view 2 7 = 20
+            """, """
+            view "sum a 0-0" = 0; view "sum a 1-1" = 1; set income 0; put 0 1 1; 5 times tick; set order 1; grant 2; pay 1 2 = 2
+            3 times put 0 0 1; set rate 0; view 0 8 = 6; view 1 8 = 5; settled 1 4 = 0; settled 1 5 = 0b10; settled 1 10 = 0b10
+            settled 0 6 = 0b01; settled 1 6 = 0b10; grant 5; set rule 1; payAll = 5; view 0 6 = 3; view 1 7 = 0
             """);
         String needs = """
             view "sum a 0-0" = 0; view "sum a 1-1" = 1; view "join 2-2" = 2; view "sum a 3-3" = 3; set rate 0
