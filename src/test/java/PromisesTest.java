@@ -118,6 +118,9 @@ public final class PromisesTest {
             drop 0 = ILLEGAL; drop 1 = ILLEGAL; drop 2 = 2; drop 1 = 1; drop 0 = 0
             """, """
             3 times view "sum a 0-0"; view "sum b 0-1" = 3; view "sum b 1-2" = 4; drop 0 = 4; drop 1 = 3; drop 2 = 2
+            """, """
+            6 times view "sum a 0-0"; view "less 4 0" = 6; view "less 5 6" = 7; drop 5 = ILLEGAL; drop 6 = ILLEGAL; drop 4 = ILLEGAL
+            drop 0 = ILLEGAL; drop 7 = 7; drop 5 = 6; drop 4 = ILLEGAL; drop 6 = 5; drop 4 = 4; drop 0 = 3
             """);
     }
 
@@ -263,6 +266,9 @@ public final class PromisesTest {
             view "sum a 0-0" = 0; view "sum b 0-0" = 1; view "sum a 1-1" = 2; count 4 = 0; count 5 = 0
             set limit 0; put 0 0 1; put 1 0 1; count 4 = 0; count 5 = 0b011; tick = 0b011; count 4 = 0b011; count 5 = 0
             put 0 1 1; put 0 0 1; count 5 = 0b100; drop 0 = 2; count 4 = 0b010; drop 2 = 1; count 5 = 0
+            """, """
+            8 times view "sum a 0-0"; set limit 0; put 0 0 1; count 5 = 0b11111111; drop 6 = 7; count 5 = 0b10111111
+            tick = 0b10111111; count 4 = 0b10111111; count 5 = 0; drop 1 = 6; count 4 = 0b10111101; drop 7 = 5; count 4 = 0b00111101
             """, """
             view "sum a 0-0" = 0; put 0 0 1; tick = 0; count 5 = 1; set order 1; pay 0 2 = 2; view 0 7 = 1; count 5 = 0; count 12 = 1
             """);

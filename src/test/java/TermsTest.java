@@ -36,6 +36,7 @@ public final class TermsTest {
             put 0 0 1 = 0; put 0 11 2 = 1; put 1 0 3 = 2; put 1 11 4 = 3
             value 0 0 4 = 1; value 0 11 4 = 2; value 1 0 4 = 3; value 1 11 4 = 4
             change 0 1 = 0; change 1 1 = 11; change 2 1 = 0; change 3 1 = 11
+            change 0 0 = 0; change 1 0 = 0; change 2 0 = 1; change 3 0 = 1
             """, """
             put 0 -1 1 = INVALID; put 0 12 1 = INVALID; put 1 -1 1 = INVALID; put 1 12 1 = INVALID
             put 0 MIN 1 = INVALID; put 1 MAX 1 = INVALID
